@@ -412,10 +412,11 @@ public final class ModelTest {
     final Random random;
     final List<Integer> words = new ArrayList<>();
     int open = 0, lines = 0;
-    boolean begun = false;
+    boolean begun = false, tiny = false, calm = false;
 
     Maker(long seed) {
-      random = new Random(seed);
+      // Seeds that are near each other begin with the same numbers, so they are spread first.
+      random = new Random(seed * 0x9E3779B97F4A7C15L);
     }
 
     int pick(int... of) {
@@ -423,12 +424,15 @@ public final class ModelTest {
     }
 
     int length() {
-      switch (random.nextInt(8)) {
-        case 0:
+      if (tiny) {
+        return random.nextInt(40) - 8;
+      }
+      switch (random.nextInt(calm ? 5 : 8)) {
+        case 4:
           return (random.nextInt(40) - 10) * U / 2;
-        case 1:
+        case 5:
           return random.nextInt(67108864) * pick(1, -1);
-        case 2:
+        case 6:
           return random.nextInt(64) - 32;
         case 3:
           return random.nextInt(12 * U) - 2 * U;
@@ -456,8 +460,15 @@ public final class ModelTest {
       }
     }
 
+    int wholeNumber() {
+      return pick(0, 0, 0, random.nextInt(7) - 3, random.nextInt(600) - 300, random.nextInt(U) - U / 2) * U;
+    }
+
     void table() {
-      switch (random.nextInt(6)) {
+      if (calm && random.nextBoolean()) {
+        add(14);
+      }
+      switch (calm ? pick(1, 2, 6, 7, 7) : random.nextInt(9)) {
         case 0:
           add(12, tableNumber(), tableNumber(), tableNumber(), tableNumber(), tableNumber(), tableNumber());
           break;
@@ -465,14 +476,24 @@ public final class ModelTest {
           add(12, U, 0, 0, U, 0, 0);
           break;
         case 2:
-          add(12, 0, U, -U, 0, pick(0, U, 4 * U), 0);
+          add(12, 0, U, -U, 0, pick(0, 8 * U, 4 * U), 0);
           break;
         case 3:
           add(12, U, 0, 0, U, pick(20000, -20000, 1, 2, 16384) * U, pick(0, 0, 1, -3) * U);
           break;
         case 4:
+          add(12, wholeNumber(), wholeNumber(), wholeNumber(), wholeNumber(), wholeNumber(), wholeNumber());
+          break;
+        case 5:
           add(12, random.nextInt(3 * U) - U, random.nextInt(U) - U / 2, random.nextInt(U) - U / 2,
               random.nextInt(3 * U) - U, random.nextInt(4 * U), random.nextInt(4 * U));
+          break;
+        case 6:
+          add(12, U + random.nextInt(U / 4) - U / 8, random.nextInt(U / 4) - U / 8, random.nextInt(U / 4) - U / 8,
+              U + random.nextInt(U / 4) - U / 8, random.nextInt(U) - U / 2, random.nextInt(U) - U / 2);
+          break;
+        case 7:
+          add(12, U, 0, 0, U, (random.nextInt(5) - 2) * U, (random.nextInt(5) - 2) * U);
           break;
         default:
           add(12, pick(1, 2, 256, -1) * U, 0, 0, pick(1, 2, 256) * U, pick(0, 1, -1) * U, 0);
@@ -505,6 +526,9 @@ public final class ModelTest {
         add(8, length(), length(), length(), length());
         begun = true;
         lines += 4;
+        if (calm && random.nextBoolean()) {
+          add(9, random.nextInt(2));
+        }
       } else if (kind < 12) {
         add(9, random.nextInt(2));
       } else if (kind < 14) {
@@ -512,13 +536,16 @@ public final class ModelTest {
         begun = false;
         lines = 0;
       } else if (kind < 16) {
-        add(10, pick(BLACK, 0x80FF0000, 0x4012AB77, -1, random.nextInt()));
+        add(10, pick(BLACK, 0x80FF0000, random.nextInt(), random.nextInt()));
       } else if (kind == 16) {
         add(11, random.nextInt(5));
       } else if (kind < 20) {
-        table();
+        for (int n = tiny ? random.nextInt(8) / 7 : pick(1, 1, 2, 3); n > 0; n--) {
+          table();
+        }
       } else if (kind == 20) {
-        add(13, random.nextInt(6) - 3, random.nextInt(6) - 3, random.nextInt(14), random.nextInt(14));
+        add(13, random.nextInt(6) - 3, random.nextInt(6) - 3, random.nextInt(14) + (calm ? 4 : 0),
+            random.nextInt(14) + (calm ? 4 : 0));
       } else if (kind == 21) {
         add(14);
       } else if (kind < 24 && open < 8) {
@@ -530,7 +557,13 @@ public final class ModelTest {
       }
     }
 
+    /** Tiny ones have few bits in each number, so that it shows how points of curves are rounded; calm ones paint. */
     int[] list(int commands) {
+      tiny = random.nextInt(4) == 0;
+      calm = random.nextInt(2) == 0;
+      if (tiny) {
+        add(12, 16384 * U, 0, 0, 16384 * U, random.nextInt(U), random.nextInt(U));
+      }
       for (int i = 0; i < commands; i++) {
         command();
       }
@@ -621,14 +654,14 @@ public final class ModelTest {
   }
 
   public static void main(String[] args) {
-    int runs = args.length > 0 ? Integer.parseInt(args[0]) : 3000;
+    int runs = args.length > 0 ? Integer.parseInt(args[0]) : 6000;
     for (int seed = 0; seed < runs && wrong < 40; seed++) {
       Maker maker = new Maker(seed);
       int[] words = maker.list(maker.random.nextInt(60));
       if (words.length > 400) {
         continue;
       }
-      int w = 1 + maker.random.nextInt(10), h = 1 + maker.random.nextInt(10);
+      int w = 1 + maker.random.nextInt(12), h = 1 + maker.random.nextInt(12);
       sameRun("run " + seed, words, seed % 50 == 0 ? 32 : w, seed % 50 == 0 ? 32 : h, maker.random.nextInt());
       sameFault("spoilt run " + seed, maker.spoilt(words));
     }

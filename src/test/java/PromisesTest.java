@@ -437,6 +437,9 @@ public final class PromisesTest {
     }
     ListPainter told = done(4, 2, 4, 0, 0, 12, U, 0, 0, U, 2 * U, 0, 6, 0, U, 0, 2 * U, 5, 2 * U, 2 * U, 5, 2 * U, 0, 9, 0);
     shows("curve: from the last point as it was told", told, "..##", "..##");
+    // At k = 1 comes 31 / 64, which is 0; if it were 1, half a pixel, the line would pass right of the first middle.
+    shows("curve: less than a half is cut off",
+        done(1, 2, 12, 0x7FFFFFFF, 0, 0, U, 26214, 0, 4, 0, 0, 6, 0, 4 * U, 31, 8 * U, 5, 31, 0, 9, 0), "#", ".");
     // At k = 4 comes - 0.5, which half up is 0; a half pixel further left, or less, would reach the first column.
     shows("curve: rounded half up, and before the TABLE comes",
         done(2, 4, 12, 0x7FFFFFFF, 0, 0, 0x7FFFFFFF, 45875, 16384, 4, 0, 0, 6, -1, 4, 0, 8, 5, 2, 8, 5, 2, 0, 9, 0),
@@ -492,6 +495,8 @@ public final class PromisesTest {
     due("WAY 3", painted(under, colour, 3), 0xC0FA2D85);
     // 100, 0, 250 are the differences.
     due("WAY 4", painted(under, colour, 4), 0xA0960F80);
+    due("127 of 255 is cut off", painted(0, 0x7F010101, 3), 0x7F000000);
+    due("128 of 255 is one", painted(0, 0x80010101, 3), 0x80010101);
     due("WAY 3 ends at 255", painted(0xC8C8C8C8, 0xFFFFFFFF, 3), 0xFFFFFFFF);
     due("WAY 0 without COVER", painted(under, 0x00FFFFFF, 0), under);
     due("WAY 0 with all COVER", painted(under, 0xFF010203, 0), 0xFF010203);

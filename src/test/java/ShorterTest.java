@@ -145,6 +145,41 @@ public final class ShorterTest {
         12, U, 0, 0, U, t, 0, 12, U, 0, 0, U, t / 3 * 2, 0, 4, 0, 0, 14, 5, 0, 5 * U, 5, U, U, 9, 0);
   }
 
+  /** Two TABLES that either stay or become the one of these six numbers. */
+  private static void pair(String what, int[] first, int[] second, int... one) {
+    int[] rest = {4, 0, 0, 14, 5, 0, 5 * U, 5, U, U, 9, 0};
+    int[] both = join(new int[] {12}, first, new int[] {12}, second, rest);
+    due("G " + what, both, one.length == 0 ? both : join(new int[] {12}, one, rest));
+  }
+
+  private static int[] join(int[]... parts) {
+    return Arrays.stream(parts).flatMapToInt(Arrays::stream).toArray();
+  }
+
+  private static void bitsOfPairs() {
+    int h = 16384 * U, m = Integer.MIN_VALUE, g = 32767 * U;
+    pair("a has more than 32 bits", of(h, 0, h, 0, 0, 0), of(U, U, 0, 0, 0, 0));
+    pair("a has not, with less", of(h, 0, h, 0, 0, 0), of(U, -U, 0, 0, 0, 0), 0, 0, 0, 0, 0, 0);
+    pair("a is the least", of(-h, 0, -h, 0, 0, 0), of(U, U, 0, 0, 0, 0), m, 0, 0, 0, 0, 0);
+    pair("a is the greatest", of(g, 0, 0, 0, 0, 0), of(U, 0, 0, 0, 0, 0), g, 0, 0, 0, 0, 0);
+    pair("b has more than 32 bits", of(0, h, 0, h, 0, 0), of(U, U, 0, 0, 0, 0));
+    pair("b has not, with less", of(0, h, 0, h, 0, 0), of(U, -U, 0, 0, 0, 0), 0, 0, 0, 0, 0, 0);
+    pair("c has more than 32 bits", of(h, 0, h, 0, 0, 0), of(0, 0, U, U, 0, 0));
+    pair("c has not, with less", of(h, 0, h, 0, 0, 0), of(0, 0, U, -U, 0, 0), 0, 0, 0, 0, 0, 0);
+    pair("d has more than 32 bits", of(0, h, 0, h, 0, 0), of(0, 0, U, U, 0, 0));
+    pair("d has not, with less", of(0, h, 0, h, 0, 0), of(0, 0, -U, U, 0, 0), 0, 0, 0, 0, 0, 0);
+    pair("e has more than 32 bits", of(h, 0, h, 0, 0, 0), of(0, 0, 0, 0, U, U));
+    pair("e has not, with less", of(h, 0, h, 0, 0, 0), of(0, 0, 0, 0, U, -U), 0, 0, 0, 0, 0, 0);
+    pair("e has more by what is added", of(U, 0, 0, 0, h, 0), of(0, 0, 0, 0, h, 0));
+    pair("e is the greatest", of(U, 0, 0, 0, h, 0), of(0, 0, 0, 0, h - U, 0), 0, 0, 0, 0, g, 0);
+    pair("f has more than 32 bits", of(0, h, 0, h, 0, 0), of(0, 0, 0, 0, U, U));
+    pair("f has not, with less", of(0, h, 0, h, 0, 0), of(0, 0, 0, 0, U, -U), 0, 0, 0, 0, 0, 0);
+    pair("f has more by what is added", of(0, 0, 0, U, 0, h), of(0, 0, 0, 0, 0, h));
+    pair("f is the least", of(0, 0, 0, U, 0, -h), of(0, 0, 0, 0, 0, -h), 0, 0, 0, 0, 0, m);
+    pair("b and d of great ones", of(0, 300 * U, 0, -U, 0, 0), of(200 * U, 20000 * U, 0, 0, 0, 0));
+    pair("only the first one is whole", of(2 * U, 0, 0, U, 0, 0), of(U, 0, 0, U, 0, 1));
+  }
+
   private static void ruleHAndI() {
     int[] box = {8, 0, 0, U, U, 9, 0};
     due("H a BRING BACK comes", of(1, 10, 6, 8, 0, 0, U, U, 9, 0, 12, 5, 0, 0, 5, 0, 0, 13, 1, 1, 1, 1, 14, 2, 9, 0),
@@ -166,6 +201,7 @@ public final class ShorterTest {
     ruleE();
     ruleF();
     ruleG();
+    bitsOfPairs();
     ruleHAndI();
     System.out.println(wrong == 0 ? "all answers are as due" : wrong + " answers are not as due");
     if (wrong != 0) {
