@@ -583,7 +583,7 @@ public final class ListPainter {
 
         /** Whether no pixel of the CLIP can be gone round, by the bounds of all points alone. */
         boolean misses(Clip clip) {
-            if (points == 0 || clip.x >= clip.endX) {
+            if (points == 0) {
                 return true;
             }
             int from = Math.max(clip.y, Filler.firstMiddle(leastY));
