@@ -1,530 +1,1026 @@
-/** Promises 1 to 14: ordinary inputs, the edges that the document names, and wrong inputs. */
+/** Promises 1 to 14, a test for each sentence: ordinary inputs, each boundary that it names, and refused calls. */
 public final class PromisesTest {
-  private static final int NOT_TOLD = -2000000000;
-  private static final int U = 65536;
-  private static final int BLACK = 0xFF000000;
-  private static int wrong = 0;
+  private static final int[] BOX_AND_FILL = {8, 0, 0, 2 * Check.U, Check.U, 9, 0};
 
-  private static void due(String what, long got, long want) {
-    if (got != want) {
-      wrong++;
-      System.out.println(what + " answered " + got + ", due is " + want);
-    }
+  private static void due(String call, long got, long want) {
+    Check.due(call, got, want);
   }
 
-  private static ListPainter with(int w, int h, int... words) {
+  /** PATHS, so that any number of words is a right list. */
+  private static ListPainter filled(int words) {
+    return Check.with(2, 2, Check.times(words, 3));
+  }
+
+  /** All that wants a list that was looked over refuses. */
+  private static void notReady(String when, ListPainter x) {
+    due(when + ": one()", x.one(), -2);
+    due(when + ": render(1)", x.render(1), -2);
+    due(when + ": optimise()", x.optimise(), -2);
+    due(when + ": state(1)", x.state(1), Check.NOT_TOLD);
+  }
+
+  private static void noShorter(String when, ListPainter x) {
+    due(when + ": shorter(0)", x.shorter(0), Check.NOT_TOLD);
+    due(when + ": renderShorter(1)", x.renderShorter(1), -2);
+  }
+
+  // ---- 1: a new object
+
+  static void promise1_theConstants() {
+    due("BAD", ListPainter.BAD, -1);
+    due("NONE", ListPainter.NONE, -2);
+  }
+
+  private static void sides(int w, int h, int wantW, int wantH) {
     ListPainter x = new ListPainter(w, h);
-    feedAll(x, words);
-    return x;
-  }
-
-  private static void feedAll(ListPainter x, int... words) {
-    int i = 0;
-    for (; i + 5 <= words.length; i += 5) {
-      x.five(words[i], words[i + 1], words[i + 2], words[i + 3], words[i + 4]);
-    }
-    for (; i < words.length; i++) {
-      x.feed(words[i]);
-    }
-  }
-
-  private static ListPainter ready(int w, int h, int... words) {
-    ListPainter x = with(w, h, words);
-    due("verify of a right list", x.verify(), 0);
-    return x;
-  }
-
-  private static ListPainter done(int w, int h, int... words) {
-    ListPainter x = ready(w, h, words);
-    due("render of a right list", x.render(100000), 0);
-    return x;
-  }
-
-  private static void fault(String what, int fault, int place, int... words) {
-    ListPainter x = with(4, 4, words);
-    due(what + ": verify()", x.verify(), fault);
-    due(what + ": state(2)", x.state(2), place);
-  }
-
-  /** The rows as text: a '#' for each PIXEL that is not 0. */
-  private static void shows(String what, ListPainter x, String... rows) {
-    for (int y = 0; y < rows.length; y++) {
-      StringBuilder row = new StringBuilder();
-      for (int i = 0; i < rows[y].length(); i++) {
-        row.append(x.pixel(i, y) != 0 ? '#' : '.');
-      }
-      if (!row.toString().equals(rows[y])) {
-        wrong++;
-        System.out.println(what + ", row " + y + " is " + row + ", due is " + rows[y]);
-      }
-    }
-  }
-
-  private static int[] join(int[]... parts) {
-    int length = 0;
-    for (int[] part : parts) {
-      length += part.length;
-    }
-    int[] all = new int[length];
-    int at = 0;
-    for (int[] part : parts) {
-      System.arraycopy(part, 0, all, at, part.length);
-      at += part.length;
-    }
-    return all;
-  }
-
-  private static int[] times(int n, int... words) {
-    int[] all = new int[n * words.length];
-    for (int i = 0; i < all.length; i++) {
-      all[i] = words[i % words.length];
-    }
-    return all;
-  }
-
-  private static void promise1() {
-    ListPainter least = new ListPainter(0, -7);
-    due("1: pixel(0, 0) of the least sheet", least.pixel(0, 0), 0);
-    due("1: pixel(1, 0) of the least sheet", least.pixel(1, 0), 1);
-    due("1: pixel(0, 1) of the least sheet", least.pixel(0, 1), 1);
-    due("1: sum() of the least sheet", least.sum(), 31);
-    ListPainter greatest = new ListPainter(33, Integer.MAX_VALUE);
-    due("1: pixel(31, 31) of the greatest sheet", greatest.pixel(31, 31), 0);
-    due("1: pixel(32, 31) of the greatest sheet", greatest.pixel(32, 31), 1);
-    due("1: pixel(31, 32) of the greatest sheet", greatest.pixel(31, 32), 1);
-    ListPainter x = new ListPainter(5, 3);
-    due("1: pixel(4, 2)", x.pixel(4, 2), 0);
-    due("1: pixel(5, 2)", x.pixel(5, 2), 1);
-    due("1: state(0)", x.state(0), 0);
-    due("1: state(2)", x.state(2), ListPainter.NONE);
-    due("1: one()", x.one(), -2);
-    due("1: BAD", ListPainter.BAD, -1);
-    due("1: NONE", ListPainter.NONE, -2);
-  }
-
-  private static void promise2And3() {
-    ListPainter x = new ListPainter(2, 2);
-    due("2: feed(3)", x.feed(3), 1);
-    due("2: feed(3)", x.feed(3), 2);
-    due("3: five()", x.five(3, 3, 3, 3, 3), 7);
+    String what = "a sheet of " + w + " by " + h + ": ";
+    due(what + "the last pixel", x.pixel(wantW - 1, wantH - 1), 0);
+    due(what + "right of it", x.pixel(wantW, wantH - 1), 1);
+    due(what + "below it", x.pixel(wantW - 1, wantH), 1);
     x.verify();
-    due("2: one() before feed", x.one(), 0);
+    due(what + "state(8)", x.state(8), wantW);
+    due(what + "state(9)", x.state(9), wantH);
+  }
+
+  static void promise1_aWidthThatIsTooSmallIs1() {
+    sides(0, 3, 1, 3);
+    sides(-1, 3, 1, 3);
+    sides(Check.LEAST, 3, 1, 3);
+  }
+
+  static void promise1_aHeightThatIsTooSmallIs1() {
+    sides(3, 0, 3, 1);
+    sides(3, -1, 3, 1);
+    sides(3, Check.LEAST, 3, 1);
+  }
+
+  static void promise1_aWidthThatIsTooLargeIs32() {
+    sides(33, 3, 32, 3);
+    sides(Check.MOST, 3, 32, 3);
+  }
+
+  static void promise1_aHeightThatIsTooLargeIs32() {
+    sides(3, 33, 3, 32);
+    sides(3, Check.MOST, 3, 32);
+  }
+
+  static void promise1_sidesOf1To32AreKept() {
+    sides(1, 1, 1, 1);
+    sides(1, 32, 1, 32);
+    sides(32, 1, 32, 1);
+    sides(2, 31, 2, 31);
+    sides(32, 32, 32, 32);
+    sides(5, 3, 5, 3);
+  }
+
+  static void promise1_allPixelsAre0() {
+    ListPainter x = new ListPainter(21, 19);
+    for (int i = 0; i < 21 * 19; i++) {
+      due("pixel " + i, x.pixel(i % 21, i / 21), 0);
+    }
+  }
+
+  static void promise1_theListIsEmpty() {
+    ListPainter x = new ListPainter(2, 2);
+    due("state(0)", x.state(0), 0);
+    due("state(2)", x.state(2), ListPainter.NONE);
+    due("reset()", x.reset(), 0);
+  }
+
+  static void promise1_theListWasNotLookedOver() {
+    notReady("a new object", new ListPainter(2, 2));
+    noShorter("a new object", new ListPainter(2, 2));
+  }
+
+  static void promise1_objectsShareNothing() {
+    ListPainter x = Check.done(2, 2, BOX_AND_FILL);
+    ListPainter y = new ListPainter(2, 2);
+    due("state(0)", y.state(0), 0);
+    due("pixel(0, 0)", y.pixel(0, 0), 0);
+    y.clear(7);
+    due("pixel(0, 0) of the other one", x.pixel(0, 0), Check.BLACK);
+  }
+
+  // ---- 2: feed
+
+  static void promise2_howManyWordsThereAreThen() {
+    ListPainter x = new ListPainter(2, 2);
+    due("feed(3)", x.feed(3), 1);
+    due("feed(3)", x.feed(3), 2);
+    due("state(0)", x.state(0), 2);
+  }
+
+  static void promise2_anyWordIsTaken() {
+    ListPainter x = new ListPainter(2, 2);
+    int[] words = {Check.LEAST, -1, 0, 15, Check.MOST};
+    for (int i = 0; i < words.length; i++) {
+      due("feed(" + words[i] + ")", x.feed(words[i]), i + 1);
+    }
+  }
+
+  static void promise2_theWord1500IsTaken() {
+    ListPainter x = filled(1499);
+    due("feed(3)", x.feed(3), 1500);
+    due("state(0)", x.state(0), 1500);
+    due("verify()", x.verify(), 0);
+    due("render(1499)", x.render(1499), 1);
+    due("render(1500)", x.render(1500), 0);
+    due("state(1)", x.state(1), 1500);
+  }
+
+  static void promise2_theWord1501IsBad() {
+    ListPainter x = filled(Check.FULL);
+    due("feed(3)", x.feed(3), ListPainter.BAD);
+    due("feed(0)", x.feed(0), ListPainter.BAD);
+    due("state(0)", x.state(0), 1500);
+    due("verify()", x.verify(), 0);
+  }
+
+  static void promise2_aWordMoreMustBeLookedOverAnew() {
+    ListPainter x = Check.ready(2, 2, BOX_AND_FILL);
+    x.optimise();
     x.feed(3);
-    due("2: one() behind feed", x.one(), -2);
-    due("2: state(1) behind feed", x.state(1), NOT_TOLD);
+    notReady("behind feed()", x);
+    noShorter("behind feed()", x);
+    due("verify()", x.verify(), 0);
+    due("one()", x.one(), 0);
+  }
+
+  static void promise2_aWordThatIsRefusedChangesNothing() {
+    ListPainter x = filled(1495);
+    Check.feedAll(x, 9, 0, 3, 10, 5);
+    x.verify();
+    x.optimise();
+    x.render(1496);
+    int[] before = Check.look(x);
+    due("feed(3)", x.feed(3), ListPainter.BAD);
+    Check.unchanged("feed(3)", before, x);
+    due("one()", x.one(), 0);
+    due("renderShorter(1)", x.renderShorter(1), 0);
+  }
+
+  // ---- 3: five
+
+  static void promise3_howManyWordsThereAreThen() {
+    ListPainter x = new ListPainter(2, 2);
+    due("five()", x.five(3, 3, 3, 3, 3), 5);
+    x.feed(3);
+    due("five()", x.five(3, 3, 3, 3, 3), 11);
+  }
+
+  static void promise3_theWordsComeInTheirOrder() {
+    ListPainter x = new ListPainter(9, 9);
+    x.five(13, 1, 2, 3, 4);
+    x.verify();
+    x.one();
+    int[] clip = {1, 2, 4, 6};
+    for (int i = 0; i < 4; i++) {
+      due("state(" + (6 + i) + ")", x.state(6 + i), clip[i]);
+    }
+  }
+
+  static void promise3_justRoomForFive() {
+    ListPainter x = filled(1495);
+    due("five()", x.five(3, 3, 3, 10, 5), 1500);
+    due("verify()", x.verify(), 0);
+    due("render(1499)", x.render(1499), 0);
+    due("state(4)", x.state(4), 5);
+  }
+
+  static void promise3_lessRoomIsBadAndChangesNothing() {
+    for (int words = 1496; words <= 1500; words++) {
+      ListPainter x = filled(words);
+      x.verify();
+      x.optimise();
+      x.render(7);
+      int[] before = Check.look(x);
+      due("five() behind " + words, x.five(1, 1, 1, 1, 1), ListPainter.BAD);
+      Check.unchanged("five() behind " + words, before, x);
+      due("one() behind that", x.one(), 0);
+      due("renderShorter(1) behind that", x.renderShorter(1), 0);
+      due("verify() behind that", x.verify(), 0);
+    }
+  }
+
+  static void promise3_theRoomThatIsLeftCanBeFilledByFeed() {
+    ListPainter x = filled(1496);
+    due("five()", x.five(1, 1, 1, 1, 1), ListPainter.BAD);
+    for (int words = 1497; words <= 1500; words++) {
+      due("feed(3)", x.feed(3), words);
+    }
+    due("feed(3)", x.feed(3), ListPainter.BAD);
+  }
+
+  static void promise3_fiveWordsMoreMustBeLookedOverAnew() {
+    ListPainter x = Check.ready(2, 2, BOX_AND_FILL);
+    x.optimise();
+    x.five(3, 3, 3, 3, 3);
+    notReady("behind five()", x);
+    noShorter("behind five()", x);
+  }
+
+  // ---- 4: reset
+
+  static void promise4_howManyWordsItHad() {
+    ListPainter x = Check.with(2, 2, BOX_AND_FILL);
+    due("reset()", x.reset(), 7);
+    due("reset() again", x.reset(), 0);
+    due("state(0)", x.state(0), 0);
+  }
+
+  static void promise4_anEmptyList() {
+    due("reset()", new ListPainter(2, 2).reset(), 0);
+  }
+
+  static void promise4_aFullListHasRoomAgain() {
+    ListPainter x = filled(Check.FULL);
+    due("reset()", x.reset(), 1500);
+    due("feed(3)", x.feed(3), 1);
+    due("five()", x.five(3, 3, 3, 3, 3), 6);
+    due("verify()", x.verify(), 0);
+    due("render(6)", x.render(6), 0);
+  }
+
+  static void promise4_itMustBeLookedOverAnew() {
+    ListPainter x = Check.ready(2, 2, BOX_AND_FILL);
+    x.optimise();
+    x.reset();
+    notReady("behind reset()", x);
+    noShorter("behind reset()", x);
+  }
+
+  static void promise4_pixelsStay() {
+    ListPainter x = Check.done(2, 2, BOX_AND_FILL);
+    int sum = x.sum();
+    x.reset();
+    due("sum()", x.sum(), sum);
+  }
+
+  static void promise4_wordsFromBeforeAreGone() {
+    ListPainter x = Check.with(2, 2, 4, 0, 0);
+    x.reset();
+    x.feed(4);
+    due("verify()", x.verify(), 2);
+  }
+
+  // ---- 5: verify
+
+  static void promise5_anEmptyListHasNoFault() {
+    ListPainter x = new ListPainter(2, 2);
+    due("verify()", x.verify(), 0);
+    due("state(1)", x.state(1), 0);
+    due("state(2)", x.state(2), ListPainter.NONE);
+  }
+
+  static void promise5_aFullListHasNoFault() {
+    ListPainter x = filled(Check.FULL);
+    due("verify()", x.verify(), 0);
+    due("state(2)", x.state(2), ListPainter.NONE);
+  }
+
+  static void promise5_theListIsAtItsBeginning() {
+    ListPainter x = Check.ready(6, 5, 1, 12, 5, 1, 2, 3, 4, 5, 13, 1, 2, 3, 9, 10, 77, 11, 3, 8, 0, 0, 1, 1, 2);
+    int[] first = Check.look(x);
+    x.render(6);
+    due("verify()", x.verify(), 0);
+    Check.unchanged("render() and verify()", first, x);
+    due("render(6)", x.render(6), 1);
+    due("state(16) is counted from 0 on", x.state(16), 4);
+  }
+
+  static void promise5_theCountsBeginAnew() {
+    ListPainter x = Check.done(2, 2, BOX_AND_FILL);
+    due("state(17)", x.state(17), 1);
+    due("state(18)", x.state(18), 2);
+    x.verify();
+    due("state(17) behind verify()", x.state(17), 0);
+    due("state(18) behind verify()", x.state(18), 0);
+  }
+
+  static void promise5_pixelsStay() {
+    ListPainter x = Check.done(2, 2, BOX_AND_FILL);
+    int sum = x.sum();
+    x.verify();
+    due("sum()", x.sum(), sum);
+  }
+
+  static void promise5_theFirstFaultIsAnswered() {
+    Check.fault("of three", 1, 1, 1, 99, 2, 2, 5, 0, 0);
+    Check.fault("of two in the other order", 4, 0, 2, 99);
+  }
+
+  static void promise5_aFaultRefusesAllThatGoesByTheList() {
+    ListPainter x = Check.done(2, 2, BOX_AND_FILL);
+    x.feed(0);
+    due("verify()", x.verify(), 1);
+    notReady("with a FAULT", x);
+    noShorter("with a FAULT", x);
+    due("state(0)", x.state(0), 8);
+    due("pixel(0, 0)", x.pixel(0, 0), Check.BLACK);
+  }
+
+  static void promise5_aFaultCanBeMended() {
+    ListPainter x = Check.with(2, 2, 1);
+    due("verify()", x.verify(), 8);
+    x.feed(2);
+    due("verify() of the mended list", x.verify(), 0);
+    due("render(2)", x.render(2), 0);
+  }
+
+  static void promise5_eachLookBeginsAnew() {
+    ListPainter x = Check.with(2, 2, Check.join(Check.of(4, 0, 0), Check.times(300, 7), Check.times(8, 1), Check.times(8, 2)));
+    due("verify()", x.verify(), 0);
+    due("verify() again", x.verify(), 0);
+    x.reset();
+    x.feed(7);
+    due("verify() of a CLOSE", x.verify(), 6);
+    x.reset();
+    x.feed(2);
+    due("verify() of a BRING BACK", x.verify(), 4);
+  }
+
+  // ---- 6: one
+
+  static void promise6_oneCommandIsDone() {
+    ListPainter x = Check.ready(4, 4, BOX_AND_FILL);
+    due("one()", x.one(), 0);
+    due("state(1)", x.state(1), 5);
+    due("state(16)", x.state(16), 4);
+    due("pixel(0, 0) before FILL", x.pixel(0, 0), 0);
+    due("one()", x.one(), 0);
+    due("state(1)", x.state(1), 7);
+    due("pixel(1, 0)", x.pixel(1, 0), Check.BLACK);
+    due("pixel(2, 0)", x.pixel(2, 0), 0);
+  }
+
+  static void promise6_theEndIsToldBehindTheLastCommand() {
+    ListPainter x = Check.ready(4, 4, 10, 5);
+    due("one(), the last COMMAND", x.one(), 0);
+    due("one(), the end", x.one(), 1);
+    due("one(), the end again", x.one(), 1);
+  }
+
+  static void promise6_theEndChangesNothing() {
+    ListPainter x = Check.done(4, 4, Check.join(Check.of(10, 0x80FF0000), BOX_AND_FILL));
+    x.optimise();
+    int[] before = Check.look(x);
+    due("one()", x.one(), 1);
+    Check.unchanged("one() at the end", before, x);
+  }
+
+  static void promise6_anEmptyListIsAtItsEnd() {
+    due("one()", Check.ready(4, 4).one(), 1);
+  }
+
+  static void promise6_aListThatWasNotLookedOver() {
+    ListPainter x = Check.with(4, 4, BOX_AND_FILL);
+    int[] before = Check.look(x);
+    due("one()", x.one(), -2);
+    Check.unchanged("one()", before, x);
+    due("one() of an empty list", new ListPainter(4, 4).one(), -2);
+  }
+
+  static void promise6_aListWithAFault() {
+    ListPainter x = Check.with(4, 4, Check.join(BOX_AND_FILL, Check.of(15)));
+    x.verify();
+    int[] before = Check.look(x);
+    due("one()", x.one(), -2);
+    due("one() again", x.one(), -2);
+    Check.unchanged("one()", before, x);
+  }
+
+  // ---- 7: render
+
+  private static ListPainter threeColours() {
+    return Check.ready(4, 4, 10, 7, 10, 8, 10, 9);
+  }
+
+  static void promise7_atMostN() {
+    ListPainter x = threeColours();
+    int[] colours = {Check.BLACK, 7, 8, 9, 9};
+    for (int n = 0; n <= 4; n++) {
+      due("render(" + n + ")", x.render(n), n < 3 ? 1 : 0);
+      due("state(4) behind " + n, x.state(4), colours[n]);
+      due("state(1) behind " + n, x.state(1), 2 * Math.min(n, 3));
+    }
+  }
+
+  static void promise7_renderOfNoneIsAtTheBeginning() {
+    ListPainter x = Check.ready(4, 4, Check.join(Check.of(10, 5), BOX_AND_FILL));
+    int[] first = Check.look(x);
+    x.one();
+    x.one();
+    due("render(0)", x.render(0), 1);
+    Check.unchanged("render(0)", first, x);
+  }
+
+  static void promise7_anEmptyListIsDoneByNone() {
+    due("render(0)", Check.ready(1, 1).render(0), 0);
+    due("render(100000)", Check.ready(1, 1).render(100000), 0);
+  }
+
+  static void promise7_theMostN() {
+    due("render(100000)", threeColours().render(100000), 0);
+  }
+
+  static void promise7_anotherNIsBadAndChangesNothing() {
+    ListPainter x = threeColours();
+    x.render(1);
+    int[] before = Check.look(x);
+    int[] others = {-1, 100001, Check.LEAST, Check.MOST};
+    for (int n : others) {
+      due("render(" + n + ")", x.render(n), ListPainter.BAD);
+      Check.unchanged("render(" + n + ")", before, x);
+    }
+    due("one()", x.one(), 0);
+    due("state(4)", x.state(4), 8);
+  }
+
+  static void promise7_aListThatWasNotLookedOver() {
+    ListPainter x = Check.with(4, 4, BOX_AND_FILL);
+    int[] before = Check.look(x);
+    due("render(1)", x.render(1), -2);
+    due("render(0)", x.render(0), -2);
+    due("render(-1)", x.render(-1), -2);
+    due("render(100001)", x.render(100001), -2);
+    Check.unchanged("render()", before, x);
+  }
+
+  static void promise7_aListWithAFault() {
+    ListPainter x = Check.with(4, 4, Check.join(BOX_AND_FILL, Check.of(15)));
+    x.verify();
+    due("render(1)", x.render(1), -2);
+    due("render(-1)", x.render(-1), -2);
+    due("pixel(0, 0)", x.pixel(0, 0), 0);
+  }
+
+  static void promise7_fromTheBeginningOn() {
+    ListPainter x = Check.ready(6, 5, 8, 0, 0, 1, 1, 1, 12, 5, 1, 2, 3, 4, 5, 13, 1, 2, 3, 9, 10, 77, 11, 3, 2);
+    int[] first = Check.look(x);
+    x.render(6);
+    due("state(3) in the midst", x.state(3), 1);
+    x.render(0);
+    Check.unchanged("render(0)", first, x);
+    x.render(6);
+    due("state(3) is counted from 0 on", x.state(3), 1);
+    due("state(16) is counted from 0 on", x.state(16), 4);
+    due("state(8) is of the SHEET", x.state(8), 4);
+  }
+
+  static void promise7_oneGoesOnThere() {
+    ListPainter x = threeColours();
+    x.render(1);
+    due("one()", x.one(), 0);
+    due("state(4)", x.state(4), 8);
+    due("one()", x.one(), 0);
+    due("one()", x.one(), 1);
+    due("render(3)", x.render(3), 0);
+    due("one() behind all", x.one(), 1);
+  }
+
+  static void promise7_pixelsStayFromBefore() {
+    ListPainter x = Check.ready(2, 1, 10, 0x80FFFFFF, 8, 0, 0, Check.U, Check.U, 9, 0);
+    x.render(3);
+    due("pixel(0, 0)", x.pixel(0, 0), 0x80808080);
+    x.render(3);
+    // COVER is (255 * 128 + 128 * 127 + 127) / 255, as is each of the others.
+    due("pixel(0, 0) twice", x.pixel(0, 0), 0xC0C0C0C0);
+    due("pixel(1, 0)", x.pixel(1, 0), 0);
+  }
+
+  static void promise7_aFullListOfCommands() {
+    ListPainter x = filled(Check.FULL);
+    x.verify();
+    due("render(1499)", x.render(1499), 1);
+    due("one()", x.one(), 0);
+    due("one()", x.one(), 1);
+  }
+
+  // ---- 8: optimise
+
+  static void promise8_howManyWordsItHas() {
+    ListPainter x = Check.ready(4, 4, Check.join(Check.of(3), BOX_AND_FILL, Check.of(10, 5)));
+    due("optimise()", x.optimise(), 7);
+    due("optimise() again", x.optimise(), 7);
+    for (int i = 0; i < 7; i++) {
+      due("shorter(" + i + ")", x.shorter(i), BOX_AND_FILL[i]);
+    }
+  }
+
+  static void promise8_anEmptyList() {
+    due("optimise()", Check.ready(4, 4).optimise(), 0);
+  }
+
+  static void promise8_aFullListOfWhichAllGoes() {
+    ListPainter x = filled(Check.FULL);
+    x.verify();
+    due("optimise()", x.optimise(), 0);
+    due("state(0)", x.state(0), 1500);
+  }
+
+  static void promise8_aFullListOfWhichNothingGoes() {
+    int[] words = Check.join(Check.of(8, 0, 0, Check.U, Check.U, 7, 9, 0), Check.times(373, 10, 0, 9, 1));
+    for (int i = 9; i < words.length; i += 4) {
+      words[i] = i;
+    }
+    ListPainter x = Check.ready(4, 4, words);
+    due("optimise()", x.optimise(), 1500);
+    for (int i = 0; i < 16; i++) {
+      due("shorter(" + i * 100 + ")", x.shorter(i * 100), i < 15 ? words[i * 100] : Check.NOT_TOLD);
+    }
+    due("shorter(1499)", x.shorter(1499), 1);
+    due("renderShorter(748)", x.renderShorter(748), 1);
+    due("renderShorter(749)", x.renderShorter(749), 0);
+  }
+
+  static void promise8_aListThatWasNotLookedOver() {
+    ListPainter x = Check.with(4, 4, BOX_AND_FILL);
+    due("optimise()", x.optimise(), -2);
+    noShorter("behind that", x);
+    due("optimise() of an empty list", new ListPainter(4, 4).optimise(), -2);
+  }
+
+  static void promise8_aListWithAFault() {
+    ListPainter x = Check.with(4, 4, 1);
+    x.verify();
+    due("optimise()", x.optimise(), -2);
+    noShorter("behind that", x);
+  }
+
+  static void promise8_nothingElseChanges() {
+    ListPainter x = Check.ready(4, 4, Check.join(Check.of(1, 10, 5, 13, 0, 0, 2, 2, 12, Check.U, 0, 0, Check.U, 7, 0),
+        BOX_AND_FILL, Check.of(2, 3)));
+    x.render(5);
+    x.optimise();
+    int[] before = Check.look(x);
+    due("optimise()", x.optimise(), 23);
+    Check.unchanged("optimise()", before, x);
+    due("state(1)", x.state(1), 20);
+    due("state(3)", x.state(3), 1);
+    due("state(14)", x.state(14), 7);
+    due("state(16)", x.state(16), 4);
+    due("sum()", x.sum(), new ListPainter(4, 4).sum());
+    due("one()", x.one(), 0);
+  }
+
+  static void promise8_itGoesByTheListAndNotByWhereItIs() {
+    ListPainter x = Check.ready(4, 4, Check.join(Check.of(3, 10, 5), BOX_AND_FILL));
+    due("optimise() at the beginning", x.optimise(), 9);
+    x.render(3);
+    due("optimise() in the midst", x.optimise(), 9);
+    x.render(4);
+    due("optimise() at the end", x.optimise(), 9);
+  }
+
+  // ---- 9: shorter
+
+  private static ListPainter shortened() {
+    ListPainter x = Check.ready(4, 4, Check.join(Check.of(3), BOX_AND_FILL, Check.of(10, 5)));
+    x.optimise();
+    return x;
+  }
+
+  static void promise9_wordIOfIt() {
+    ListPainter x = shortened();
+    for (int i = 0; i < 7; i++) {
+      due("shorter(" + i + ")", x.shorter(i), BOX_AND_FILL[i]);
+    }
+  }
+
+  static void promise9_noneSuch() {
+    ListPainter x = shortened();
+    int[] none = {-1, 7, 8, 9, 10, 1499, 1500, Check.LEAST, Check.MOST};
+    for (int i : none) {
+      due("shorter(" + i + ")", x.shorter(i), Check.NOT_TOLD);
+    }
+  }
+
+  static void promise9_ofAnEmptyOneNoneSuch() {
+    ListPainter x = Check.ready(4, 4, 10, 5);
+    due("optimise()", x.optimise(), 0);
+    due("shorter(0)", x.shorter(0), Check.NOT_TOLD);
+    due("shorter(-1)", x.shorter(-1), Check.NOT_TOLD);
+  }
+
+  static void promise9_noneWasMade() {
+    ListPainter x = Check.ready(4, 4, BOX_AND_FILL);
+    due("shorter(0)", x.shorter(0), Check.NOT_TOLD);
+  }
+
+  static void promise9_noneWasMadeSinceFeed() {
+    ListPainter x = shortened();
+    x.feed(3);
+    due("shorter(0)", x.shorter(0), Check.NOT_TOLD);
+    x.verify();
+    due("shorter(0) behind verify()", x.shorter(0), Check.NOT_TOLD);
+    x.optimise();
+    due("shorter(0) behind optimise()", x.shorter(0), 8);
+  }
+
+  static void promise9_noneWasMadeSinceFive() {
+    ListPainter x = shortened();
+    x.five(3, 3, 3, 3, 3);
+    due("shorter(0)", x.shorter(0), Check.NOT_TOLD);
+  }
+
+  static void promise9_noneWasMadeSinceReset() {
+    ListPainter x = shortened();
+    x.reset();
+    due("shorter(0)", x.shorter(0), Check.NOT_TOLD);
+    Check.feedAll(x, BOX_AND_FILL);
+    x.verify();
+    due("shorter(0) behind the same list", x.shorter(0), Check.NOT_TOLD);
+  }
+
+  static void promise9_itStaysWhileTheListDoes() {
+    ListPainter x = shortened();
+    x.verify();
+    x.render(2);
+    x.one();
+    x.clear(5);
+    x.renderShorter(9);
+    due("shorter(0)", x.shorter(0), 8);
+    due("shorter(6)", x.shorter(6), 0);
+  }
+
+  // ---- 10: renderShorter
+
+  static void promise10_asRenderByWhatIsShorter() {
+    ListPainter x = shortened();
+    due("renderShorter(0)", x.renderShorter(0), 1);
+    due("renderShorter(1)", x.renderShorter(1), 1);
+    due("pixel(0, 0)", x.pixel(0, 0), 0);
+    due("renderShorter(2)", x.renderShorter(2), 0);
+    due("pixel(0, 0) behind FILL", x.pixel(0, 0), Check.BLACK);
+    due("renderShorter(3)", x.renderShorter(3), 0);
+  }
+
+  static void promise10_fromTheBeginningOnEachTime() {
+    ListPainter x = shortened();
+    due("renderShorter(1)", x.renderShorter(1), 1);
+    due("renderShorter(1) again", x.renderShorter(1), 1);
+    due("pixel(0, 0)", x.pixel(0, 0), 0);
+  }
+
+  static void promise10_theMostN() {
+    due("renderShorter(100000)", shortened().renderShorter(100000), 0);
+  }
+
+  static void promise10_anotherNIsBadAndChangesNothing() {
+    ListPainter x = shortened();
+    int[] before = Check.look(x);
+    int[] others = {-1, 100001, Check.LEAST, Check.MOST};
+    for (int n : others) {
+      due("renderShorter(" + n + ")", x.renderShorter(n), ListPainter.BAD);
+      Check.unchanged("renderShorter(" + n + ")", before, x);
+    }
+  }
+
+  static void promise10_anEmptyOneIsDoneByNone() {
+    ListPainter x = Check.ready(4, 4, 10, 5);
+    x.optimise();
+    due("renderShorter(0)", x.renderShorter(0), 0);
+    due("renderShorter(1)", x.renderShorter(1), 0);
+  }
+
+  static void promise10_noneWasMade() {
+    ListPainter x = Check.ready(4, 4, BOX_AND_FILL);
+    int[] ns = {0, 1, -1, 100000, 100001};
+    for (int n : ns) {
+      due("renderShorter(" + n + ")", x.renderShorter(n), -2);
+    }
+    due("pixel(0, 0)", x.pixel(0, 0), 0);
+  }
+
+  static void promise10_noneWasMadeSinceTheListChanged() {
+    ListPainter x = shortened();
+    x.feed(3);
+    due("renderShorter(9) behind feed()", x.renderShorter(9), -2);
+    x.verify();
+    due("renderShorter(9) behind verify()", x.renderShorter(9), -2);
+    due("pixel(0, 0)", x.pixel(0, 0), 0);
+    x.optimise();
+    due("renderShorter(9) behind optimise()", x.renderShorter(9), 0);
+  }
+
+  static void promise10_itWantsNoLookOverOfItsOwn() {
+    ListPainter x = shortened();
+    due("verify()", x.verify(), 0);
+    due("renderShorter(9)", x.renderShorter(9), 0);
+  }
+
+  /** In the midst of a list with all that one() goes by: it stays, and the path too. */
+  static void promise10_oneGoesOnAsItWouldHaveBefore() {
+    int u = Check.U;
+    ListPainter x = Check.ready(4, 2, 4, 0, 0, 5, 0, u, 1, 13, 0, 0, 2, 1, 10, 77, 11, 1, 12, u, 0, 0, u, u, 0,
+        5, u, u, 5, u, 0, 9, 0, 2);
+    x.optimise();
+    x.render(7);
+    int[] before = Check.look(x);
+    due("renderShorter(0)", x.renderShorter(0), 1);
+    Check.unchanged("renderShorter(0)", before, x);
+    due("renderShorter(100)", x.renderShorter(100), 0);
+    Check.shows("by SHORTER", x, "##..", "....");
+    x.clear(0);
+    Check.unchanged("renderShorter(100) and clear()", before, x);
+    due("one()", x.one(), 0);
+    due("one()", x.one(), 0);
+    due("one(), the FILL", x.one(), 0);
+    Check.shows("by one()", x, "##..", "....");
+    due("pixel(0, 0)", x.pixel(0, 0), 77);
+    due("state(17)", x.state(17), 1);
+    due("state(18)", x.state(18), 2);
+  }
+
+  static void promise10_countsAreItsOwn() {
+    ListPainter x = shortened();
+    x.render(9);
+    due("renderShorter(9)", x.renderShorter(9), 0);
+    due("state(17)", x.state(17), 1);
+    due("state(18)", x.state(18), 2);
+  }
+
+  // ---- 11: pixel
+
+  static void promise11_theFirstAndTheLastPixel() {
+    int u = Check.U;
+    ListPainter x = Check.done(3, 2, 11, 1, 10, 8, 8, 0, 0, u, u, 9, 0, 3, 10, 9, 8, 2 * u, u, u, u, 9, 0);
+    due("pixel(0, 0)", x.pixel(0, 0), 8);
+    due("pixel(2, 1)", x.pixel(2, 1), 9);
+    due("pixel(1, 0)", x.pixel(1, 0), 0);
+    due("pixel(0, 1)", x.pixel(0, 1), 0);
+  }
+
+  static void promise11_outsideIsBad() {
+    ListPainter x = new ListPainter(3, 2);
+    x.clear(7);
+    int[] outside = {-1, 0, 3, 0, 0, -1, 0, 2, 2, 2, 3, 1, -1, -1, 3, 2, Check.LEAST, 0, 0, Check.LEAST, Check.MOST, 0, 0,
+        Check.MOST, Check.MOST, Check.MOST, Check.LEAST, Check.LEAST};
+    for (int i = 0; i < outside.length; i += 2) {
+      due("pixel(" + outside[i] + ", " + outside[i + 1] + ")", x.pixel(outside[i], outside[i + 1]), 1);
+    }
+  }
+
+  static void promise11_outsideOfTheLargestSheet() {
+    ListPainter x = new ListPainter(32, 32);
+    x.clear(7);
+    due("pixel(31, 31)", x.pixel(31, 31), 7);
+    due("pixel(32, 0)", x.pixel(32, 0), 1);
+    due("pixel(0, 32)", x.pixel(0, 32), 1);
+  }
+
+  // ---- 12: clear
+
+  static void promise12_allPixelsBecomeP() {
+    ListPainter x = Check.done(3, 2, BOX_AND_FILL);
+    int[] ps = {-5, 0, 1, Check.LEAST, Check.MOST};
+    for (int p : ps) {
+      x.clear(p);
+      for (int i = 0; i < 6; i++) {
+        due("pixel " + i + " behind clear(" + p + ")", x.pixel(i % 3, i / 3), p);
+      }
+    }
+  }
+
+  static void promise12_nothingElseChanges() {
+    ListPainter x = shortened();
+    x.render(3);
+    int[] before = Check.look(x);
+    int sum = x.sum();
+    x.clear(99);
+    x.clear(0);
+    due("sum() of a cleared sheet", x.sum(), new ListPainter(4, 4).sum());
+    int[] now = Check.look(x);
+    before[39] = now[39];
+    Check.unchanged("clear()", before, x);
+    due("render(3) paints it again", x.render(3), 1);
+    due("sum() is as before", x.sum(), sum);
+  }
+
+  static void promise12_itWantsNoList() {
+    ListPainter x = new ListPainter(1, 1);
+    x.clear(6);
+    due("pixel(0, 0)", x.pixel(0, 0), 6);
+    notReady("behind clear()", x);
+  }
+
+  // ---- 13: sum
+
+  static void promise13_oneIsThereAtFirst() {
+    ListPainter x = new ListPainter(1, 1);
+    due("sum() of 0", x.sum(), 31);
+    x.clear(5);
+    due("sum() of 5", x.sum(), 36);
+    x.clear(-31);
+    due("sum() of -31", x.sum(), 0);
+  }
+
+  static void promise13_rowByRow() {
+    int u = Check.U;
+    ListPainter x = Check.done(2, 2, 10, 1, 11, 1, 8, u, 0, u, u, 9, 0, 3, 10, 2, 8, 0, u, u, u, 9, 0);
+    due("sum()", x.sum(), (((31 + 0) * 31 + 1) * 31 + 2) * 31 + 0);
+  }
+
+  static void promise13_itWraps() {
+    ListPainter x = new ListPainter(2, 1);
+    x.clear(Check.MOST);
+    // 31 and the most there is, times 31, and that again: 32 times 2^31 - 1, and 961, in 32 bits.
+    due("sum() of two of the most", x.sum(), 961 - 32);
+    ListPainter y = new ListPainter(32, 32);
+    int s = 1;
+    for (int i = 0; i < 1024; i++) {
+      s *= 31;
+    }
+    due("sum() of 1,024 times 0", y.sum(), s);
+  }
+
+  // ---- 14: state
+
+  static void promise14_atFirst() {
+    ListPainter x = Check.ready(6, 5, BOX_AND_FILL);
+    int[] first = {7, 0, -2, 0, Check.BLACK, 0, 0, 0, 6, 5, Check.U, 0, 0, Check.U, 0, 0, 0, 0, 0};
+    for (int what = 0; what <= 18; what++) {
+      due("state(" + what + ")", x.state(what), first[what]);
+    }
+  }
+
+  static void promise14_inTheMidst() {
+    int u = Check.U;
+    ListPainter x = Check.ready(6, 5, 1, 12, 2 * u, 1, 2, 3 * u, 4, 5, 13, 1, 2, 3, 9, 10, 77, 11, 3, 8, 0, 0, 1, 1, 2);
+    due("render(6)", x.render(6), 1);
+    int[] then = {23, 22, -2, 1, 77, 3, 1, 2, 4, 5, 2 * u, 1, 2, 3 * u, 4, 5, 4, 0, 0};
+    for (int what = 0; what <= 18; what++) {
+      due("state(" + what + ")", x.state(what), then[what]);
+    }
+    x.one();
+    int[] atEnd = {23, 23, -2, 0, Check.BLACK, 0, 0, 0, 6, 5, u, 0, 0, u, 0, 0, 4, 0, 0};
+    for (int what = 0; what <= 18; what++) {
+      due("state(" + what + ") at the end", x.state(what), atEnd[what]);
+    }
+  }
+
+  static void promise14_anotherNumberIsBad() {
+    ListPainter x = Check.done(6, 5, BOX_AND_FILL);
+    int[] others = {-1, 19, 20, -2, Check.LEAST, Check.MOST};
+    for (int what : others) {
+      due("state(" + what + ")", x.state(what), Check.NOT_TOLD);
+      due("state(" + what + ") not looked over", new ListPainter(2, 2).state(what), Check.NOT_TOLD);
+    }
+  }
+
+  private static void onlyWordsAndFaultAreTold(String when, ListPainter x) {
+    for (int what = 0; what <= 18; what++) {
+      due(when + ": is state(" + what + ") told", x.state(what) == Check.NOT_TOLD ? 0 : 1, what == 0 || what == 2 ? 1 : 0);
+    }
+  }
+
+  static void promise14_whatIsToldOfAListThatWasNotLookedOver() {
+    ListPainter x = Check.with(4, 4, BOX_AND_FILL);
+    onlyWordsAndFaultAreTold("before verify()", x);
+    x.verify();
+    x.render(2);
+    x.feed(3);
+    onlyWordsAndFaultAreTold("behind feed()", x);
     x.verify();
     x.five(3, 3, 3, 3, 3);
-    due("3: one() behind five", x.one(), -2);
+    onlyWordsAndFaultAreTold("behind five()", x);
+    x.verify();
     x.reset();
-    for (int i = 0; i < 299; i++) {
-      x.five(3, 3, 3, 3, 3);
-    }
-    due("2: feed to 1496", x.feed(3), 1496);
+    onlyWordsAndFaultAreTold("behind reset()", x);
+  }
+
+  static void promise14_whatIsToldOfAListWithAFault() {
+    ListPainter x = Check.with(4, 4, 8, 0, 0, 1, 1, 77);
     x.verify();
-    x.optimise();
-    due("3: five() with room for 4", x.five(1, 1, 1, 1, 1), -1);
-    due("3: nothing changed", x.state(0), 1496);
-    due("3: it is still looked over", x.one(), 0);
-    due("3: SHORTER is still there", x.renderShorter(1), 0);
-    due("2: feed to 1497", x.feed(3), 1497);
-    x.feed(3);
-    x.feed(3);
-    due("2: feed to 1500", x.feed(3), 1500);
+    onlyWordsAndFaultAreTold("with a FAULT", x);
+    due("state(0)", x.state(0), 6);
+    due("state(2)", x.state(2), 5);
+  }
+
+  static void promise14_thePlaceOfTheNextCommand() {
+    ListPainter x = Check.ready(4, 4, 1, 2, 3, 4, 0, 0, 5, 0, 0, 6, 0, 0, 0, 0, 7, 8, 0, 0, 0, 0, 9, 0, 10, 0, 11, 0,
+        12, 0, 0, 0, 0, 0, 0, 13, 0, 0, 0, 0, 14);
+    int[] places = {0, 1, 2, 3, 6, 9, 14, 15, 20, 22, 24, 26, 33, 38, 39};
+    for (int i = 0; i < places.length; i++) {
+      due("state(1) before COMMAND " + i, x.state(1), places[i]);
+      due("one()", x.one(), i == 14 ? 1 : 0);
+    }
+    due("state(1) at the end", x.state(1), 39);
+  }
+
+  static void promise14_noFaultIsNone() {
+    due("state(2) of a new object", new ListPainter(2, 2).state(2), ListPainter.NONE);
+    due("state(2) of a right list", Check.ready(2, 2, 3).state(2), ListPainter.NONE);
+  }
+
+  static void promise14_thePlaceOfTheLastFault() {
+    ListPainter x = Check.with(2, 2, 0);
+    due("state(2) before verify()", x.state(2), ListPainter.NONE);
     x.verify();
-    due("2: feed to 1501", x.feed(1), -1);
-    due("2: still 1500", x.state(0), 1500);
-    due("2: still looked over", x.render(1500), 0);
-    due("2: all 1500 were there", x.state(1), 1500);
-    ListPainter y = new ListPainter(2, 2);
-    for (int i = 0; i < 299; i++) {
-      y.five(3, 3, 3, 3, 3);
-    }
-    due("3: five() to 1500", y.five(3, 3, 3, 3, 3), 1500);
-    due("3: five() behind 1500", y.five(3, 3, 3, 3, 3), -1);
-  }
-
-  private static void promise4() {
-    ListPainter x = ready(4, 4, 8, 0, 0, U, U, 9, 0);
-    x.optimise();
-    due("4: reset()", x.reset(), 7);
-    due("4: state(0)", x.state(0), 0);
-    due("4: one()", x.one(), -2);
-    due("4: shorter(0)", x.shorter(0), NOT_TOLD);
-    due("4: renderShorter(1)", x.renderShorter(1), -2);
-    due("4: reset() again", x.reset(), 0);
-    due("4: verify()", x.verify(), 0);
-    due("4: one() of an empty list", x.one(), 1);
-  }
-
-  private static void promise5Words() {
-    fault("no C, 0", 1, 0, 0);
-    fault("no C, 15", 1, 1, 3, 15);
-    fault("no C, less than 0", 1, 1, 14, -1);
-    fault("no C, the least number", 1, 0, Integer.MIN_VALUE);
-    int[] lengths = {0, 1, 1, 1, 3, 3, 5, 1, 5, 2, 2, 2, 7, 5, 1};
-    for (int c = 4; c <= 13; c++) {
-      int[] begun = {3, 4, 0, 0};
-      int[] cut = new int[lengths[c] - 1];
-      if (cut.length > 0) {
-        cut[0] = c;
-        fault("words are missing of " + c, 2, 4, join(begun, cut));
-        int[] whole = new int[lengths[c]];
-        whole[0] = c;
-        fault("no words are missing of " + c, 0, -2, join(begun, whole));
-      }
-    }
-    fault("missing comes before out of bounds", 2, 0, 4, 67108864);
-    int bound = 67108864;
-    int[][] tooFar = {{4, 0, bound}, {4, -bound, 0}, {5, bound, 0}, {5, 0, Integer.MIN_VALUE}, {6, 0, 0, 0, bound},
-        {6, 0, -bound, 0, 0}, {8, 0, 0, bound, 0}, {8, 0, 0, 0, -bound}, {9, 2}, {9, -1}, {11, 5}, {11, -1},
-        {13, 1000000, 0, 1, 1}, {13, 0, -1000000, 1, 1}, {13, 0, 0, 1000001, 1}, {13, 0, 0, 1, -1}};
-    for (int[] command : tooFar) {
-      fault("out of bounds of " + command[0], 3, 3, join(new int[] {4, 0, 0}, command));
-    }
-    int far = bound - 1;
-    int[][] justRight = {{4, far, -far}, {5, -far, far}, {6, far, -far, far, -far}, {8, far, far, far, far},
-        {8, -far, -far, -far, -far}, {9, 1}, {11, 4}, {13, 999999, -999999, 1000000, 0}, {10, Integer.MIN_VALUE},
-        {12, Integer.MIN_VALUE, Integer.MAX_VALUE, -1, 1, Integer.MIN_VALUE, Integer.MAX_VALUE}};
-    for (int[] command : justRight) {
-      fault("within bounds of " + command[0], 0, -2, join(new int[] {4, 0, 0}, command));
-    }
-  }
-
-  private static void promise5Order() {
-    fault("BRING BACK alone", 4, 0, 2);
-    fault("one BRING BACK too many", 4, 2, 1, 2, 2);
-    fault("the ninth SAVE", 5, 8, times(9, 1));
-    fault("eight SAVES at once", 0, -2, join(times(8, 1), times(8, 2)));
-    fault("nine SAVES, not at once", 0, -2, times(9, 1, 2));
-    fault("LINE without outline", 6, 0, 5, 0, 0);
-    fault("CURVE without outline", 6, 0, 6, 0, 0, 0, 0);
-    fault("CLOSE without outline", 6, 0, 7);
-    fault("LINE behind PATH", 6, 4, 4, 0, 0, 3, 5, 0, 0);
-    fault("out of bounds comes before the outline", 3, 0, 5, 0, 67108864);
-    fault("LINE behind BOX", 0, -2, 8, 0, 0, 0, 0, 5, 0, 0);
-    fault("LINE behind CLOSE", 0, -2, 4, 0, 0, 7, 5, 0, 0);
-    fault("LINE behind BRING BACK of what was begun", 0, -2, 1, 4, 0, 0, 2, 5, 0, 0);
-    int[] begin = {4, 0, 0};
-    fault("300 CLOSES", 0, -2, join(begin, times(300, 7)));
-    fault("301 CLOSES", 7, 303, join(begin, times(301, 7)));
-    fault("301 LINES", 7, 903, join(begin, times(301, 5, 1, 1)));
-    fault("75 BOXES", 0, -2, times(75, 8, 0, 0, 1, 1));
-    fault("76 BOXES", 7, 375, times(76, 8, 0, 0, 1, 1));
-    fault("37 CURVES and 4 LINES", 0, -2, join(begin, times(37, 6, 0, 0, 1, 1), times(4, 7)));
-    fault("37 CURVES and 5 LINES", 7, 192, join(begin, times(37, 6, 0, 0, 1, 1), times(5, 7)));
-    fault("BEGIN counts no LINE", 0, -2, join(begin, times(300, 7), begin, begin));
-    fault("PATH counts anew", 0, -2, join(begin, times(300, 7), new int[] {3}, begin, times(300, 7)));
-    fault("SAVE open at the end", 8, 3, 1, 1, 2);
-    fault("the first FAULT is told", 1, 1, 1, 99, 2, 2, 2);
-    fault("an empty list", 0, -2);
-  }
-
-  private static void promise5State() {
-    ListPainter x = done(4, 4, 1, 10, 5, 13, 0, 0, 2, 2, 2, 8, 0, 0, U, U, 9, 0);
-    due("5: at the end", x.state(1), 16);
-    due("5: verify() again", x.verify(), 0);
-    due("5: at its beginning", x.state(1), 0);
-    due("5: no LINES there", x.state(16), 0);
-    due("5: no FILLS there", x.state(17), 0);
-    due("5: no PIXELS there", x.state(18), 0);
-    x.feed(77);
-    due("5: state(2) before verify()", x.state(2), -2);
-    due("5: verify() of a FAULT", x.verify(), 1);
-    due("5: state(2) of it", x.state(2), 16);
-    due("5: one() with a FAULT", x.one(), -2);
+    due("state(2) of a FAULT at 0", x.state(2), 0);
+    x.feed(3);
+    due("state(2) behind feed()", x.state(2), 0);
     x.reset();
-    due("5: state(2) of the last one", x.state(2), 16);
-    due("5: verify() mends it", x.verify(), 0);
-    due("5: state(2) without", x.state(2), -2);
+    due("state(2) behind reset()", x.state(2), 0);
+    Check.feedAll(x, 3, 3, 2);
+    x.verify();
+    due("state(2) of a FAULT at 2", x.state(2), 2);
+    x.reset();
+    Check.feedAll(x, 1, 10, 5);
+    x.verify();
+    due("state(2) of a SAVE that is open: how many words", x.state(2), 3);
+    x.feed(2);
+    x.verify();
+    due("state(2) without FAULT", x.state(2), ListPainter.NONE);
   }
 
-  private static void promise6() {
-    ListPainter x = with(4, 4, 8, 0, 0, 2 * U, U, 9, 0, 3);
-    due("6: not looked over", x.one(), -2);
-    x.verify();
-    due("6: BOX", x.one(), 0);
-    due("6: the next place", x.state(1), 5);
-    due("6: LINES", x.state(16), 4);
-    due("6: nothing painted yet", x.pixel(0, 0), 0);
-    due("6: FILL", x.one(), 0);
-    due("6: painted", x.pixel(1, 0), BLACK);
-    due("6: not painted", x.pixel(2, 0), 0);
-    due("6: PATH", x.one(), 0);
-    due("6: LINES behind PATH", x.state(16), 0);
-    due("6: the end", x.one(), 1);
-    due("6: the end again", x.one(), 1);
-    due("6: the end's place", x.state(1), 8);
-    due("6: FILLS", x.state(17), 1);
-    due("6: PIXELS", x.state(18), 2);
+  static void promise14_thePlaceOfAFaultInTheLastWordOfAFullList() {
+    ListPainter x = filled(1499);
+    x.feed(0);
+    due("verify()", x.verify(), 1);
+    due("state(2)", x.state(2), 1499);
+    x = filled(1499);
+    x.feed(1);
+    due("verify() of a SAVE", x.verify(), 8);
+    due("state(2) of a SAVE", x.state(2), 1500);
   }
 
-  private static void promise7() {
-    ListPainter x = with(4, 4, 10, 7, 10, 8, 10, 9);
-    due("7: not looked over", x.render(1), -2);
-    due("7: not looked over, and another n", x.render(-1), -2);
-    x.verify();
-    due("7: render(2)", x.render(2), 1);
-    due("7: COLOUR of it", x.state(4), 8);
-    due("7: one() goes on there", x.one(), 0);
-    due("7: COLOUR of one()", x.state(4), 9);
-    due("7: render(1) from the beginning", x.render(1), 1);
-    due("7: COLOUR of that", x.state(4), 7);
-    due("7: render(-1)", x.render(-1), -1);
-    due("7: render(100001)", x.render(100001), -1);
-    due("7: BAD changes nothing", x.state(4), 7);
-    due("7: render(3)", x.render(3), 0);
-    due("7: render(100000)", x.render(100000), 0);
-    due("7: render(0)", x.render(0), 1);
-    due("7: COLOUR at the beginning", x.state(4), BLACK);
-    due("7: place at the beginning", x.state(1), 0);
-    due("7: render(0) of an empty list", ready(1, 1).render(0), 0);
-    ListPainter y = done(4, 4, 8, 0, 0, 2 * U, U, 9, 0);
-    y.render(2);
-    due("7: FILLS since verify()", y.state(17), 2);
-    due("7: PIXELS since verify()", y.state(18), 4);
-  }
-
-  private static void promise8To10() {
-    ListPainter x = with(4, 4, 3, 8, 0, 0, U, U, 9, 0, 10, 5);
-    due("8: not looked over", x.optimise(), -2);
-    due("9: none was made", x.shorter(0), NOT_TOLD);
-    due("10: none was made", x.renderShorter(1), -2);
-    due("10: none was made, and another n", x.renderShorter(-1), -2);
-    x.verify();
-    x.one();
-    due("10: none was made yet", x.renderShorter(1), -2);
-    due("8: optimise()", x.optimise(), 7);
-    due("8: the LIST stays", x.state(0), 10);
-    due("8: its place stays", x.state(1), 1);
-    int[] want = {8, 0, 0, U, U, 9, 0};
-    for (int i = 0; i < want.length; i++) {
-      due("9: shorter(" + i + ")", x.shorter(i), want[i]);
+  static void promise14_savesThatAreOpen() {
+    ListPainter x = Check.ready(2, 2, Check.join(Check.times(8, 1), Check.times(8, 2)));
+    for (int i = 0; i <= 16; i++) {
+      due("state(3) behind " + i, x.state(3), i <= 8 ? i : 16 - i);
+      x.one();
     }
-    due("9: shorter(7)", x.shorter(7), NOT_TOLD);
-    due("9: shorter(-1)", x.shorter(-1), NOT_TOLD);
-    due("9: shorter of the least", x.shorter(Integer.MIN_VALUE), NOT_TOLD);
-    due("10: another n", x.renderShorter(-1), -1);
-    due("10: another n", x.renderShorter(100001), -1);
-    due("10: not all", x.renderShorter(1), 1);
-    due("10: nothing painted", x.sum(), new ListPainter(4, 4).sum());
-    due("10: all", x.renderShorter(2), 0);
-    due("10: painted", x.pixel(0, 0), BLACK);
-    due("10: the LIST's place is as before", x.state(1), 1);
-    due("10: LINES are as before", x.state(16), 0);
-    due("10: FILLS are as before", x.state(17), 0);
-    due("10: PIXELS are as before", x.state(18), 0);
-    due("10: one() goes on", x.one(), 0);
-    due("10: one() did the BOX", x.state(16), 4);
-    x.verify();
-    due("9: the LIST did not change", x.shorter(0), 8);
-    x.feed(3);
-    due("9: the LIST changed", x.shorter(0), NOT_TOLD);
-    x.verify();
-    due("9: none was made since", x.shorter(0), NOT_TOLD);
-    due("10: none was made since", x.renderShorter(1), -2);
-    due("8: optimise() again", x.optimise(), 7);
   }
 
-  private static void promise11To13() {
-    ListPainter x = new ListPainter(3, 2);
-    int[] outside = {-1, 0, 3, 0, 0, -1, 0, 2, Integer.MIN_VALUE, 0, 0, Integer.MAX_VALUE};
-    for (int i = 0; i < outside.length; i += 2) {
-      due("11: pixel outside", x.pixel(outside[i], outside[i + 1]), 1);
+  static void promise14_coloursOfAllBits() {
+    int[] colours = {0, -1, 1, Check.LEAST, Check.MOST};
+    for (int colour : colours) {
+      due("state(4)", Check.done(2, 2, 10, colour).state(4), colour);
     }
-    x.clear(-5);
-    for (int i = 0; i < 6; i++) {
-      due("12: pixel behind clear", x.pixel(i % 3, i / 3), -5);
+  }
+
+  static void promise14_linesOfThePath() {
+    ListPainter x = Check.ready(2, 2, Check.join(Check.of(4, 0, 0, 5, 0, 0, 6, 0, 0, 0, 0, 7, 8, 0, 0, 0, 0),
+        Check.times(286, 7), Check.of(9, 0, 4, 0, 0, 1, 2, 3)));
+    int[] lines = {0, 0, 1, 9, 10, 14};
+    for (int i = 0; i < lines.length; i++) {
+      due("state(16) behind " + i, x.state(16), lines[i]);
+      x.one();
     }
-    ListPainter y = done(2, 2, 10, 1, 11, 1, 8, U, 0, U, U, 9, 0, 3, 10, 2, 8, 0, U, U, U, 9, 0);
-    due("11: pixel(1, 0)", y.pixel(1, 0), 1);
-    due("11: pixel(0, 1)", y.pixel(0, 1), 2);
-    due("13: sum() goes row by row", y.sum(), (((31 + 0) * 31 + 1) * 31 + 2) * 31 + 0);
-    y.clear(Integer.MIN_VALUE);
-    int s = 1;
+    x.render(5 + 286);
+    due("state(16), the most", x.state(16), 300);
     for (int i = 0; i < 4; i++) {
-      s = 31 * s + Integer.MIN_VALUE;
-    }
-    due("13: sum() wraps", y.sum(), s);
-    due("12: clear() leaves the LIST", y.state(0), 21);
-    due("12: clear() leaves the place", y.state(1), 21);
-  }
-
-  private static void promise14() {
-    ListPainter x = with(6, 5, 1, 12, 2 * U, 1, 2, 3 * U, 4, 5, 13, 1, 2, 3, 9, 10, 77, 11, 3, 8, 0, 0, 1, 1, 9, 0, 2);
-    int[] told = {25, 0, -2, 0, BLACK, 0, 0, 0, 6, 5, U, 0, 0, U, 0, 0, 0, 0, 0};
-    for (int what = 0; what <= 18; what++) {
-      boolean always = what == 0 || what == 2;
-      due("14: state(" + what + ") not looked over", x.state(what), always ? told[what] : NOT_TOLD);
-    }
-    x.verify();
-    for (int what = 0; what <= 18; what++) {
-      due("14: state(" + what + ") at first", x.state(what), told[what]);
-    }
-    x.render(7);
-    int[] then = {25, 24, -2, 1, 77, 3, 1, 2, 4, 5, 2 * U, 1, 2, 3 * U, 4, 5, 4, 0, 0};
-    for (int what = 0; what <= 18; what++) {
-      due("14: state(" + what + ") then", x.state(what), then[what]);
+      due("one()", x.one(), 0);
+      due("state(16) stays behind FILL, BEGIN, SAVE, BRING BACK", x.state(16), 300);
     }
     x.one();
-    int[] atEnd = {25, 25, -2, 0, BLACK, 0, 0, 0, 6, 5, U, 0, 0, U, 0, 0, 4, 0, 0};
-    for (int what = 0; what <= 18; what++) {
-      due("14: state(" + what + ") at the end", x.state(what), atEnd[what]);
-    }
-    int[] others = {-1, 19, Integer.MIN_VALUE, Integer.MAX_VALUE};
-    for (int what : others) {
-      due("14: state(" + what + ")", x.state(what), NOT_TOLD);
+    due("state(16) behind PATH", x.state(16), 0);
+  }
+
+  static void promise14_onlyFillsThatPaintedAreCounted() {
+    int u = Check.U;
+    ListPainter x = Check.ready(2, 2, 9, 0, 8, 0, 0, u, u, 9, 0, 9, 1, 13, 1, 1, 1, 1, 9, 0, 13, 0, 0, 1, 1, 9, 1);
+    int[] fills = {0, 0, 0, 1, 2, 2, 2, 2, 2};
+    for (int i = 0; i < fills.length; i++) {
+      due("state(17) behind " + i, x.state(17), fills[i]);
+      due("state(18) behind " + i, x.state(18), fills[i]);
+      x.one();
     }
   }
 
-  private static void tables() {
-    ListPainter x = done(4, 4, 12, 3, 0, 0, 3, 0, 0, 12, 32768, 0, 0, -32768, 10, -10);
-    due("table: 1.5 is rounded to 2", x.state(10), 2);
-    due("table: - 1.5 is rounded to - 1", x.state(13), -1);
-    due("table: e", x.state(14), 0);
-    due("table: f", x.state(15), 0);
-    ListPainter order = done(4, 4, 12, 0, U, -U, 0, 7, 8, 12, 2 * U, 0, 0, 3 * U, U, 2 * U);
-    int[] want = {0, 2 * U, -3 * U, 0, 7 - 2 * U, 8 + U};
-    for (int i = 0; i < 6; i++) {
-      due("table: the old one behind the new one, " + i, order.state(10 + i), want[i]);
+  static void promise14_pixelsAreCountedEachTime() {
+    ListPainter x = Check.ready(4, 4, Check.join(BOX_AND_FILL, Check.of(9, 1)));
+    x.render(9);
+    due("state(18)", x.state(18), 4);
+    x.render(9);
+    due("state(17) since verify()", x.state(17), 4);
+    due("state(18) since verify()", x.state(18), 8);
+    x.render(0);
+    due("state(18) at the beginning again", x.state(18), 8);
+  }
+
+  /** So many pixels need more than the 512 calls that are promised; the number must not run over there either. */
+  static void promise14_pixelsAreCountedModulo2To30() {
+    int side = 32 * Check.U;
+    ListPainter x = Check.ready(32, 32, Check.join(Check.of(11, 1, 8, 0, 0, side, side), Check.times(746, 9, 0)));
+    long want = 0;
+    for (int i = 0; i < 1407; i++) {
+      x.render(100000);
+      want += 1024 * 746;
+      due("state(18) behind " + want, x.state(18), want % (1 << 30));
     }
-    int least = Integer.MIN_VALUE;
-    ListPainter wraps = done(4, 4, 12, least, 0, least, U, least, 1, 12, least, least, 32768, U, U, 32768);
-    due("table: a wraps", wraps.state(10), 0);
-    due("table: b", wraps.state(11), least);
-    due("table: c wraps", wraps.state(12), 1073741824);
-    due("table: d", wraps.state(13), U);
-    due("table: e wraps", wraps.state(14), -1073741824);
-    due("table: f", wraps.state(15), 32769);
-    ListPainter plain = done(4, 4, 12, 5, 5, 5, 5, 5, 5, 14);
-    due("table: PLAIN's a", plain.state(10), U);
-    due("table: PLAIN's f", plain.state(15), 0);
-    shows("table: shifts", done(4, 2, 12, U, 0, 0, U, 2 * U, U, 8, 0, 0, U, U, 9, 0), "....", "..#.");
-    shows("table: points go by the one that is there", done(4, 2, 8, 0, 0, U, U, 12, U, 0, 0, U, 2 * U, U, 9, 0),
-        "#...", "....");
-    shows("table: turns", done(4, 4, 12, 0, U, -U, 0, 4 * U, 0, 8, 0, 0, U, 3 * U, 9, 0), ".###", "....");
-    int far = 67108863;
-    shows("table: points are held", done(2, 2, 12, 0x7FFFFFFF, 0, 0, U, 0, 0, 4, -far, 0, 5, far, 0, 5, 0, 4 * U, 9, 0),
-        "##", "##");
+    due("are there more than 2 to the 30th", want > 1 << 30 ? 1 : 0, 1);
   }
 
-  private static void outlines() {
-    shows("an outline closes by itself", done(4, 3, 4, 0, 0, 5, 3 * U, 0, 5, 3 * U, 3 * U, 9, 0), "###.", ".##.", "..#.");
-    shows("CLOSE goes to where it began and on from there",
-        done(4, 2, 4, 0, 0, 5, U, 0, 5, U, U, 5, 0, U, 7, 5, 4 * U, 0, 5, 4 * U, 2 * U, 5, 0, 2 * U, 9, 1),
-        ".###", "####");
-    shows("CLOSE goes to the point as it was sent",
-        done(3, 2, 4, 0, 0, 5, U, 0, 5, U, 2 * U, 12, U, 0, 0, U, U, 0, 5, -U, 2 * U, 7, 9, 0), "#..", "#..");
-    shows("turns of the same sense add", done(3, 1, 8, 0, 0, 2 * U, U, 8, U, 0, 2 * U, U, 9, 0), "###");
-    shows("an odd count is wanted", done(3, 1, 8, 0, 0, 2 * U, U, 8, U, 0, 2 * U, U, 9, 1), "#.#");
-    shows("turns of both senses cancel", done(3, 1, 8, 0, 0, 2 * U, U, 8, 3 * U, 0, -2 * U, U, 9, 0), "#.#");
-    shows("the path stays behind FILL", done(3, 1, 8, 0, 0, U, U, 9, 0, 8, 2 * U, 0, U, U, 10, -1, 9, 0), "#.#");
-    shows("PATH empties it", done(3, 1, 8, 0, 0, U, U, 3, 8, 2 * U, 0, U, U, 9, 0), "..#");
-    int half = 32768;
-    shows("a middle on the left and upper edge is in, on the others out",
-        done(3, 3, 8, half, half, U, U, 9, 0), "#..", "...", "...");
-    shows("just past the middle", done(2, 2, 8, half + 1, half + 1, U, U, 9, 0), "..", ".#");
-    due("a path of points only paints nothing", done(3, 3, 4, 0, 0, 4, U, U, 9, 0).state(17), 0);
-  }
-
-  /** A curve from (0, 0) by (8 U, 0) to (8 U, 8 U): by k, x is U k (16 - k) / 8 and y is U k k / 8. */
-  private static void curves() {
-    ListPainter x = done(8, 8, 4, 0, 0, 6, 8 * U, 0, 8 * U, 8 * U, 5, 0, 8 * U, 9, 0);
-    due("curve: 8 LINES", x.state(16), 9);
-    for (int py = 0; py < 8; py++) {
-      for (int px = 0; px < 8; px++) {
-        due("curve: pixel " + px + " " + py, x.pixel(px, py), leftOfCurve(px + 0.5, py + 0.5) ? BLACK : 0);
-      }
-    }
-    ListPainter told = done(4, 2, 4, 0, 0, 12, U, 0, 0, U, 2 * U, 0, 6, 0, U, 0, 2 * U, 5, 2 * U, 2 * U, 5, 2 * U, 0, 9, 0);
-    shows("curve: from the last point as it was told", told, "..##", "..##");
-    // At k = 1 comes 31 / 64, which is 0; if it were 1, half a pixel, the line would pass right of the first middle.
-    shows("curve: less than a half is cut off",
-        done(1, 2, 12, 0x7FFFFFFF, 0, 0, U, 26214, 0, 4, 0, 0, 6, 0, 4 * U, 31, 8 * U, 5, 31, 0, 9, 0), "#", ".");
-    // At k = 4 comes - 0.5, which half up is 0; a half pixel further left, or less, would reach the first column.
-    shows("curve: rounded half up, and before the TABLE comes",
-        done(2, 4, 12, 0x7FFFFFFF, 0, 0, 0x7FFFFFFF, 45875, 16384, 4, 0, 0, 6, -1, 4, 0, 8, 5, 2, 8, 5, 2, 0, 9, 0),
-        ".#", ".#", ".#", ".#");
-  }
-
-  private static boolean leftOfCurve(double mx, double my) {
-    for (int k = 1; k <= 8; k++) {
-      double y0 = (k - 1) * (k - 1) / 8.0, y1 = k * k / 8.0;
-      if (y0 <= my && my < y1) {
-        double x0 = (k - 1) * (17 - k) / 8.0, x1 = k * (16 - k) / 8.0;
-        return mx < x0 + (my - y0) * (x1 - x0) / (y1 - y0);
-      }
-    }
-    return false;
-  }
-
-  private static void clips() {
-    int[] all = {8, 0, 0, 4 * U, 4 * U, 9, 0};
-    shows("CLIP", done(4, 4, join(new int[] {13, 1, 2, 2, 1}, all)), "....", "....", ".##.", "....");
-    shows("CLIPS nest", done(4, 4, join(new int[] {13, -5, -5, 7, 8, 13, 1, 0, 9, 9}, all)), ".#..", ".#..", ".#..", "....");
-    shows("SAVE and BRING BACK", done(4, 1, join(new int[] {1, 13, 0, 0, 0, 0, 2}, all)), "####");
-    ListPainter x = done(4, 4, 13, 2, 2, 2, 2, 13, 0, 0, 2, 4);
-    for (int what = 6; what <= 9; what++) {
-      due("CLIP of nothing: state(" + what + ")", x.state(what), 0);
-    }
-    ListPainter thin = done(4, 4, 13, 1, 1, 2, 0);
-    for (int what = 6; what <= 9; what++) {
-      due("CLIP without height: state(" + what + ")", thin.state(what), 0);
-    }
-    ListPainter nested = done(9, 9, 1, 13, 1, 1, 7, 7, 1, 13, 2, 2, 2, 2, 10, 1, 2, 10, 2, 2);
-    nested.render(7);
-    due("BRING BACK's CLIP", nested.state(8), 8);
-    due("COLOUR behind it", nested.state(4), 2);
-  }
-
-  private static int painted(int under, int colour, int way) {
-    ListPainter x = ready(1, 1, 11, way, 10, colour, 8, 0, 0, U, U, 9, 0);
-    x.clear(under);
-    x.render(4);
-    return x.pixel(0, 0);
-  }
-
-  private static void ways() {
-    int under = 0x40C81E05;
-    int colour = 0x80641EFF;
-    // Red by hand: (100 * 128 + 200 * 127 + 127) / 255 = 150; COVER (255 * 128 + 64 * 127 + 127) / 255 = 160.
-    due("WAY 0", painted(under, colour, 0), 0xA0961E82);
-    due("WAY 1", painted(under, colour, 1), colour);
-    // Of 100 and 200 comes 78, of 30 and 30 comes 4, of 255 and 5 comes 5.
-    due("WAY 2", painted(under, colour, 2), 0xA08B1105);
-    // 50, 15, 128 are added.
-    due("WAY 3", painted(under, colour, 3), 0xC0FA2D85);
-    // 100, 0, 250 are the differences.
-    due("WAY 4", painted(under, colour, 4), 0xA0960F80);
-    due("127 of 255 is cut off", painted(0, 0x7F010101, 3), 0x7F000000);
-    due("128 of 255 is one", painted(0, 0x80010101, 3), 0x80010101);
-    due("WAY 3 ends at 255", painted(0xC8C8C8C8, 0xFFFFFFFF, 3), 0xFFFFFFFF);
-    due("WAY 0 without COVER", painted(under, 0x00FFFFFF, 0), under);
-    due("WAY 0 with all COVER", painted(under, 0xFF010203, 0), 0xFF010203);
-    ListPainter none = ready(1, 1, 10, 0, 8, 0, 0, U, U, 9, 0);
-    none.render(9);
-    due("a pixel painted without COVER counts", none.state(18), 1);
+  static void promise14_aPixelThatStaysTheSameIsPaintedToo() {
+    ListPainter x = Check.done(2, 1, Check.join(Check.of(10, 0), BOX_AND_FILL));
+    due("state(17)", x.state(17), 1);
+    due("state(18)", x.state(18), 2);
+    due("pixel(0, 0)", x.pixel(0, 0), 0);
   }
 
   public static void main(String[] args) {
-    promise1();
-    promise2And3();
-    promise4();
-    promise5Words();
-    promise5Order();
-    promise5State();
-    promise6();
-    promise7();
-    promise8To10();
-    promise11To13();
-    promise14();
-    tables();
-    outlines();
-    curves();
-    clips();
-    ways();
-    System.out.println(wrong == 0 ? "all answers are as due" : wrong + " answers are not as due");
-    if (wrong != 0) {
-      System.exit(1);
-    }
+    Check.runAll(PromisesTest.class);
   }
 }
