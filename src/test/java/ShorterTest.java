@@ -50,6 +50,12 @@ public final class ShorterTest {
     stays("eight", join(Check.times(8, 1), BOX, Check.times(8, 2)));
   }
 
+  static void rowA_wordsThatOnlyLookLikeCommands() {
+    becomes("9 is no FILL there", join(BOX, of(10, 9, 3, 10, 9)), BOX);
+    stays("12 is no TABLE there", join(of(10, 12), BOX));
+    stays("2 is no BRING BACK there", join(of(1, 10, 2, 11, 2), BOX, of(10, 1, 9, 1, 2)));
+  }
+
   // ---- B
 
   static void rowB_theLeastHeightCounts() {
@@ -99,6 +105,23 @@ public final class ShorterTest {
   static void rowB_anEmptyPath() {
     becomes("at first", of(9, 0));
     becomes("behind PATH", join(BOX, of(3, 9, 1)), BOX);
+  }
+
+  static void rowB_whicheverPointIsTheLeastOrTheGreatest() {
+    int[][] corners = {{0, -U}, {U, 0}, {0, U}};
+    for (int first = 0; first < 3; first++) {
+      int[] path = {};
+      for (int i = 0; i < 3; i++) {
+        int[] corner = corners[(first + i) % 3];
+        path = join(path, of(i == 0 ? 4 : 5, corner[0], corner[1]));
+      }
+      stays("downwards, from " + first, join(path, of(9, 0)));
+      stays("the other way, from " + first, join(path, of(5, corners[first][0], corners[first][1], 9, 0)));
+    }
+    stays("the first one is the greatest", 4, 0, 3 * U, 5, U, -U, 5, 0, -2 * U, 9, 0);
+    stays("the first one is the least", 4, 0, -3 * U, 5, U, U, 5, 0, 2 * U, 9, 0);
+    stays("the first one is farthest left", 4, 7 * U, 0, 5, 9 * U, 3 * U, 5, 9 * U, 0, 9, 0);
+    stays("the last one is farthest left", 4, 9 * U, 0, 5, 9 * U, 3 * U, 5, 7 * U, 0, 9, 0);
   }
 
   static void rowB_onlyTheBoundsAreLookedAt() {
@@ -261,6 +284,12 @@ public final class ShorterTest {
     stays("a SAVE between", join(of(12, U, 0, 0, U, U, 0, 1, 12, U, 0, 0, U, 0, U), BOX, of(2, 8, 0, 0, U, U, 9, 0)));
   }
 
+  static void rowG_otherCommandsAreNoTables() {
+    stays("FILL of 0, at the end", 8, 0, 0, U, U, 12, 2 * U, 0, 0, U, 0, 0, 9, 0);
+    stays("COLOUR of 0", 8, 0, 0, U, U, 12, 2 * U, 0, 0, U, 0, 0, 10, 0, 9, 0);
+    stays("a COLOUR of a TABLE's number", 8, 0, 0, U, U, 12, 2 * U, 0, 0, U, 0, 0, 10, 12, 9, 0);
+  }
+
   static void rowG_allTwelveNumbersAreWhole() {
     for (int i = 0; i < 6; i++) {
       int[] first = {2 * U, U, U, 2 * U, U, U}, second = {2 * U, U, U, 3 * U, U, U};
@@ -366,6 +395,9 @@ public final class ShorterTest {
   static void rowH_aSaveBefore() {
     stays("CLIP", join(of(1, 13, 0, 0, 3, 3, 1, 10, 6), BOX, of(2, 2, 9, 0)));
     stays("TABLE", join(of(1, 12, 2 * U, 0, 0, U, 0, 0, 1, 10, 6), BOX, of(2, 2, 9, 0)));
+    stays("CLIP, and the first BRING BACK is that SAVE's", join(BOX, of(13, 0, 0, 3, 3, 1, 3, 2), NEXT));
+    stays("TABLE, and the first BRING BACK is that SAVE's", join(BOX, of(12, 2 * U, 0, 0, U, 0, 0, 1, 3, 2), NEXT));
+    stays("PLAIN, and the first BRING BACK is that SAVE's", join(of(12, 2 * U, 0, 0, U, 0, 0), BOX, of(14, 1, 3, 2), NEXT));
   }
 
   // ---- I

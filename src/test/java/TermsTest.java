@@ -170,12 +170,11 @@ public final class TermsTest {
 
   // ---- COMMAND 6: CURVE
 
-  /** How a number of a CURVE's point is rounded, by hand: the parts come from 64. */
-  private static int[] asLines(int[] from, int[] curve, int[] rounded) {
-    int[] lines = {4, from[0], from[1]};
-    for (int k = 0; k < 8; k++) {
-      int y = (from[1] * (7 - k) * (7 - k) + 2 * curve[1] * (k + 1) * (7 - k) + curve[3] * (k + 1) * (k + 1)) / 64;
-      lines = Check.join(lines, Check.of(5, rounded[k], y));
+  /** The lines of a curve from (0, 0), of which x was reckoned by hand, and y goes on by 8 each time. */
+  private static int[] asLines(int... xs) {
+    int[] lines = BEGIN;
+    for (int k = 1; k <= 8; k++) {
+      lines = Check.join(lines, Check.of(5, xs[k - 1], 8 * k));
     }
     return lines;
   }
@@ -191,28 +190,37 @@ public final class TermsTest {
     return all;
   }
 
-  private static void curveRounds(int by, int... want) {
-    int[] curve = {by, 32, 0, 64};
-    long got = seen(Check.join(BEGIN, Check.of(6), curve), true);
-    due("by " + by + ", x", got, seen(asLines(Check.of(0, 0), curve, want), true));
-    got = seen(Check.join(BEGIN, Check.of(6), curve), false);
-    due("by " + by + ", y", got, seen(asLines(Check.of(0, 0), curve, want), false));
-    int[] other = want.clone();
-    other[3]--;
-    due("by " + by + ", the fourth is seen", got == seen(asLines(Check.of(0, 0), curve, other), false) ? 1 : 0, 0);
+  /** A number of the first point and of the second one, and what comes of them and of a last point at 0. */
+  private static void curveRounds(int by, int to, int... want) {
+    String what = "by " + by + " to " + to;
+    int[] curve = Check.join(BEGIN, Check.of(6, by, 32, to, 64));
+    due(what + ", x", seen(curve, true), seen(asLines(want), true));
+    due(what + ", y", seen(curve, false), seen(asLines(want), false));
+    for (int k = 0; k < 7; k++) {
+      int[] other = want.clone();
+      other[k]--;
+      due(what + ", is point " + (k + 1) + " seen", seen(curve, true) != seen(asLines(other), true) ? 1 : 0, 1);
+    }
   }
 
   /** The first point's parts are 14, 24, 30, 32, 30, 24, 14 and 0 of 64. */
   static void curve_halvesAreRoundedUp() {
-    curveRounds(1, 0, 0, 0, 1, 0, 0, 0, 0);
-    curveRounds(3, 1, 1, 1, 2, 1, 1, 1, 0);
-    curveRounds(7, 2, 3, 3, 4, 3, 3, 2, 0);
+    curveRounds(1, 0, 0, 0, 0, 1, 0, 0, 0, 0);
+    curveRounds(3, 0, 1, 1, 1, 2, 1, 1, 1, 0);
+    curveRounds(7, 0, 2, 3, 3, 4, 3, 3, 2, 0);
   }
 
   static void curve_belowNoughtHalvesAreRoundedUpToo() {
-    curveRounds(-1, 0, 0, 0, 0, 0, 0, 0, 0);
-    curveRounds(-3, -1, -1, -1, -1, -1, -1, -1, 0);
-    curveRounds(-7, -2, -3, -3, -3, -3, -3, -2, 0);
+    curveRounds(-1, 0, 0, 0, 0, 0, 0, 0, 0, 0);
+    curveRounds(-3, 0, -1, -1, -1, -1, -1, -1, -1, 0);
+    curveRounds(-7, 0, -2, -3, -3, -3, -3, -3, -2, 0);
+  }
+
+  /** The second point's parts are 1, 4, 9, 16, 25, 36, 49 and 64 of 64. */
+  static void curve_lessThanAHalfIsCutOff() {
+    curveRounds(0, 31, 0, 2, 4, 8, 12, 17, 24, 31);
+    curveRounds(0, 32, 1, 2, 5, 8, 13, 18, 25, 32);
+    curveRounds(0, -11, 0, -1, -2, -3, -4, -6, -8, -11);
   }
 
   /** From (0, 0) by (8 U, 0) to (8 U, 8 U): x is U k (16 - k) / 8 and y is U k k / 8. */
@@ -237,28 +245,30 @@ public final class TermsTest {
     int[] shift = {12, U, 0, 0, U, 2 * U, 0};
     shows("behind BEGIN", done(4, 2, Check.join(BEGIN, shift, Check.of(6, 0, U, 0, 2 * U, 5, 2 * U, 2 * U, 5, 2 * U, 0, 9, 0))),
         "..##", "..##");
-    // From (0, 0) as it was told, not from (2 U, 0) as it was sent, or from there sent again.
-    samePicture("behind LINE", done(8, 8, Check.join(shift, BEGIN, Check.of(5, U, 0, 14, 6, 4 * U, 0, 8 * U, 8 * U, 9, 0))),
-        done(8, 8, Check.join(Check.of(4, 2 * U, 0, 5, 3 * U, 0), linesFrom(U), Check.of(9, 0))));
+    samePicture("behind LINE", done(8, 8, Check.join(shift, BEGIN, Check.of(5, U, U, 14, 6, 4 * U, 0, 8 * U, 8 * U, 9, 0))),
+        done(8, 8, Check.join(Check.of(4, 2 * U, 0, 5, 3 * U, U), linesFrom(U, U), Check.of(9, 0))));
+    samePicture("behind CURVE", done(8, 8, Check.join(shift, BEGIN, Check.of(6, 0, 0, U, U, 14, 6, 4 * U, 0, 8 * U, 8 * U, 9, 0))),
+        done(8, 8, Check.join(shift, BEGIN, Check.of(6, 0, 0, U, U, 14), linesFrom(U, U), Check.of(9, 0))));
   }
 
-  /** A CURVE from (x, 0) by (4 U, 0) to (8 U, 8 U). */
-  private static int[] linesFrom(int x) {
+  /** A CURVE from this point by (4 U, 0) to (8 U, 8 U). */
+  private static int[] linesFrom(int x, int y) {
     int[] lines = {};
     for (int k = 1; k <= 8; k++) {
-      lines = Check.join(lines, Check.of(5, (x * (8 - k) * (8 - k) + 4 * U * 2 * k * (8 - k) + 8 * U * k * k) / 64, U * k * k / 8));
+      int rest = (8 - k) * (8 - k);
+      lines = Check.join(lines, Check.of(5, (x * rest + 4 * U * 2 * k * (8 - k) + 8 * U * k * k) / 64, (y * rest + 8 * U * k * k) / 64));
     }
     return lines;
   }
 
   static void curve_behindCloseItIsFromWhereTheOutlineBegan() {
-    samePicture("CLOSE and CURVE", done(8, 8, 4, U, 0, 5, 2 * U, 4 * U, 5, 0, 5 * U, 7, 6, 4 * U, 0, 8 * U, 8 * U, 9, 0),
-        done(8, 8, Check.join(Check.of(4, U, 0, 5, 2 * U, 4 * U, 5, 0, 5 * U, 5, U, 0), linesFrom(U), Check.of(9, 0))));
-    samePicture("BOX and CURVE", done(8, 8, 8, U, 0, -U, 3 * U, 6, 4 * U, 0, 8 * U, 8 * U, 9, 0),
-        done(8, 8, Check.join(Check.of(8, U, 0, -U, 3 * U), linesFrom(U), Check.of(9, 0))));
+    samePicture("CLOSE and CURVE", done(8, 8, 4, U, 2 * U, 5, 2 * U, 4 * U, 5, 0, 5 * U, 7, 6, 4 * U, 0, 8 * U, 8 * U, 9, 0),
+        done(8, 8, Check.join(Check.of(4, U, 2 * U, 5, 2 * U, 4 * U, 5, 0, 5 * U, 5, U, 2 * U), linesFrom(U, 2 * U), Check.of(9, 0))));
+    samePicture("BOX and CURVE", done(8, 8, 8, U, 3 * U, -U, 3 * U, 6, 4 * U, 0, 8 * U, 8 * U, 9, 0),
+        done(8, 8, Check.join(Check.of(8, U, 3 * U, -U, 3 * U), linesFrom(U, 3 * U), Check.of(9, 0))));
     // CLOSE goes to the point as it was sent, and yet the CURVE goes from it as it was told.
-    samePicture("another TABLE", done(8, 8, 12, U, 0, 0, U, U, 0, 4, 0, 0, 5, U, 4 * U, 14, 7, 6, 4 * U, 0, 8 * U, 8 * U, 9, 0),
-        done(8, 8, Check.join(Check.of(4, U, 0, 5, 2 * U, 4 * U, 5, U, 0), linesFrom(0), Check.of(9, 0))));
+    samePicture("another TABLE", done(8, 8, 12, U, 0, 0, U, U, U, 4, 0, U, 5, U, 4 * U, 14, 7, 6, 4 * U, 0, 8 * U, 8 * U, 9, 0),
+        done(8, 8, Check.join(Check.of(4, U, 2 * U, 5, 2 * U, 5 * U, 5, U, 2 * U), linesFrom(0, U), Check.of(9, 0))));
   }
 
   static void curve_ofTheFarthestPoints() {
@@ -796,6 +806,22 @@ public final class TermsTest {
       due(Arrays.toString(box), done(2, 2, Check.join(box, Check.of(9, 0))).state(17), 0);
     }
     shows("around it", done(2, 2, 8, -FAR, -FAR, FAR, FAR, 8, -U, -U, FAR, FAR, 9, 0), "##", "##");
+  }
+
+  static void fill_aPathOfOneBitsHeightOrWidth() {
+    shows("from the middle down", done(1, 1, 8, 0, HALF, U, 1, 9, 0), "#");
+    shows("down to the middle", done(1, 1, 8, 0, HALF - 1, U, 1, 9, 0), ".");
+    shows("from the middle to the right", done(1, 1, 8, HALF, 0, 1, U, 9, 0), "#");
+    shows("right to the middle", done(1, 1, 8, HALF - 1, 0, 1, U, 9, 0), ".");
+    shows("slanting", done(1, 1, 4, 0, HALF, 5, U, HALF + 1, 5, 0, HALF + 1, 9, 0), ".");
+    shows("slanting the other way", done(1, 1, 4, U, HALF, 5, 0, HALF + 1, 5, 0, HALF, 9, 0), "#");
+  }
+
+  /** 373 points alone and 75 BOXES: more a list can't hold. */
+  static void fill_aPathOfTheMostPoints() {
+    int[] words = Check.join(Check.times(373, 4, 0, 2 * U), Check.times(74, 8, 0, 0, 0, U), Check.of(8, U, 0, U, U, 9, 0));
+    due("words", words.length, 1496);
+    shows("the last BOX", done(3, 2, words), ".#.", "...");
   }
 
   /** Two outlines of 149 and 151 LINES, each a comb of teeth. */
