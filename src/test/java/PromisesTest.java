@@ -732,6 +732,22 @@ public final class PromisesTest {
     due("state(18)", x.state(18), 2);
   }
 
+  static void promise10_oneAtTheEndStaysThere() {
+    ListPainter x = shortened();
+    x.render(9);
+    due("renderShorter(1)", x.renderShorter(1), 1);
+    due("one()", x.one(), 1);
+    due("state(1)", x.state(1), 10);
+  }
+
+  static void promise10_oneAtTheBeginningStaysThere() {
+    ListPainter x = shortened();
+    due("renderShorter(9)", x.renderShorter(9), 0);
+    due("state(1)", x.state(1), 0);
+    due("one()", x.one(), 0);
+    due("state(1) behind PATH", x.state(1), 1);
+  }
+
   static void promise10_countsAreItsOwn() {
     ListPainter x = shortened();
     x.render(9);

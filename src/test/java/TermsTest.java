@@ -163,7 +163,7 @@ public final class TermsTest {
     Check.noFault("behind 300", Check.join(BEGIN, Check.times(300, 7), BEGIN));
   }
 
-  static void line_onePaintsNothingFor_itGoesThereAndBack() {
+  static void line_aloneGoesThereAndBackAndPaintsNothing() {
     due("FILL 0", done(3, 3, 4, 0, 0, 5, 3 * U, 3 * U, 9, 0).state(17), 0);
     due("FILL 1", done(3, 3, 4, 0, 0, 5, 0, 3 * U, 9, 1).state(17), 0);
   }
@@ -500,6 +500,14 @@ public final class TermsTest {
         list[word] = value;
         Check.noFault("word " + word + " of TABLE is " + value, list);
       }
+    }
+  }
+
+  static void fault3_onlyTheCommandsOwnWordsAreLookedAt() {
+    int[][] commands = {{4, 0, 0}, {5, 0, 0}, {6, 0, 0, 0, 0}, {8, 0, 0, 0, 0}, {9, 0}, {11, 0}, {13, 0, 0, 0, 0}};
+    int[] great = {10, LEAST}, table = {12, MOST, LEAST, MOST, LEAST, MOST, LEAST};
+    for (int[] command : commands) {
+      Check.noFault("great words before and behind " + command[0], Check.join(BEGIN, great, command, great, table, command, table));
     }
   }
 
