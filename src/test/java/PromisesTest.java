@@ -1036,6 +1036,25 @@ public final class PromisesTest {
     due("pixel(0, 0)", x.pixel(0, 0), 0);
   }
 
+  // ---- README.md
+
+  static void readme_theExampleAnswersAsItSays() {
+    ListPainter painter = new ListPainter(8, 8);
+    due("five(8, ..)", painter.five(8, 65536, 65536, 131072, 131072), 5);
+    due("five(10, ..)", painter.five(10, 0xFFFF0000, 9, 0, 3), 10);
+    due("verify()", painter.verify(), 0);
+    due("render(100)", painter.render(100), 0);
+    due("pixel(1, 1)", painter.pixel(1, 1), 0xFFFF0000);
+    due("pixel(3, 3)", painter.pixel(3, 3), 0);
+    due("state(18)", painter.state(18), 4);
+    due("optimise()", painter.optimise(), 9);
+    due("shorter(8)", painter.shorter(8), 0);
+    painter.clear(-1);
+    due("renderShorter(100)", painter.renderShorter(100), 0);
+    due("pixel(1, 1) by SHORTER", painter.pixel(1, 1), 0xFFFF0000);
+    due("pixel(3, 3) by SHORTER", painter.pixel(3, 3), -1);
+  }
+
   public static void main(String[] args) {
     Check.runAll(PromisesTest.class);
   }
